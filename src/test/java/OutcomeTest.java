@@ -1,0 +1,114 @@
+/** Promises 6 to 14: what translate leaves behind, and what is asked of it. */
+public final class OutcomeTest {
+    private static final int[] NO_FILES = {-1, 3, 99, Integer.MIN_VALUE, Integer.MAX_VALUE};
+
+    public static void main(String[] args) {
+        noSuchFile();
+        latestTranslation();
+        faultsLeaveNoTokens();
+        nodeNumbers();
+        everyCode();
+        Check.end();
+    }
+
+    private static void noSuchFile() {
+        PhaseReader reader = Check.with("#define a 1\nint x=a;");
+        for (int file : NO_FILES) {
+            Check.due("translate(" + file + ") at first", reader.translate(file), -1);
+            Check.due("verdict", reader.verdict(), 0);
+            Check.due("nodes", reader.nodes(), 1);
+        }
+        reader.translate(0);
+        String before = whole(reader);
+        Check.due("outcome", before, "0 int x = 1 ; / 2 2 2 2 2 / 1 1 / 0:-1[1:0[3:0 4:1[18:3]]]");
+        for (int file : NO_FILES) {
+            Check.due("translate(" + file + ")", reader.translate(file), -1);
+            Check.due("outcome after translate(" + file + ")", whole(reader), before);
+        }
+    }
+
+    private static void latestTranslation() {
+        PhaseReader reader = Check.with("#define a 1\nint x=a;", "int y;", "(");
+        Check.due("file 0", reader.translate(0), 0);
+        String first = whole(reader);
+        reader.choose(0);
+        reader.clear();
+        reader.write('$');
+        Check.due("after the file was changed", whole(reader), first);
+        Check.due("file 1", reader.translate(1), 0);
+        Check.due("outcome of file 1", whole(reader), "0 int y ; / 1001 1001 1001 / 0 0 / 0:-1[1:0[3:0 4:1]]");
+        Check.due("file 2", reader.translate(2), PhaseReader.SYNTAX);
+        Check.due("verdict of file 2", reader.verdict(), PhaseReader.SYNTAX);
+        Check.due("tokens of file 2", Check.words(reader), "(");
+        Check.due("file 0 now", reader.translate(0), PhaseReader.CHARACTER);
+        Check.due("verdict of file 0 now", reader.verdict(), PhaseReader.CHARACTER);
+        Check.put(reader, 0, "#define a 1\nint x=a;");
+        Check.due("verdict before it is translated", reader.verdict(), PhaseReader.CHARACTER);
+        Check.due("file 0 again", reader.translate(0), 0);
+        Check.due("outcome of file 0 again", whole(reader), first);
+        for (int turn = 0; turn < 20; turn++) {
+            reader.translate(turn % 3);
+        }
+        reader.translate(0);
+        Check.due("outcome after many", whole(reader), first);
+    }
+
+    private static void faultsLeaveNoTokens() {
+        String[] faults = {"/*", "$", "#x", "#endif", "#include <1>", "#define a\n#define a", "#define a(p,q,r,s)",
+            "#define f()\nf(", "#define a +##+\na", ";".repeat(101)};
+        for (String fault : faults) {
+            PhaseReader reader = Check.with("int x;", "#include <1>");
+            reader.translate(0);
+            Check.put(reader, 0, fault.startsWith("#") ? "int y;\n" + fault : fault);
+            int verdict = reader.translate(0);
+            Check.due("code of " + fault + " is one of 1 to 9", verdict >= 1 && verdict <= 9, true);
+            Check.due("verdict of " + fault, reader.verdict(), verdict);
+            Check.due("tokens of " + fault, reader.tokens(), 0);
+            Check.due("place of " + fault, reader.place(0), -1);
+            Check.due("spelling of " + fault, reader.spelling(0, 0), -1);
+            Check.due("nodes of " + fault, reader.nodes(), 0);
+            Check.due("node of " + fault, reader.node(0, 0), -2);
+        }
+    }
+
+    private static void nodeNumbers() {
+        PhaseReader reader = Check.with("int x=-1;");
+        reader.translate(0);
+        int[][] nodes = {{0, -1, 1}, {1, 0, 2}, {3, 0, 0}, {4, 1, 1}, {13, 3, 1}, {18, 4, 0}};
+        Check.due("nodes", reader.nodes(), nodes.length);
+        for (int k = 0; k < nodes.length; k++) {
+            for (int what = 0; what < 3; what++) {
+                Check.due("node(" + k + ", " + what + ")", reader.node(k, what), nodes[k][what]);
+            }
+            Check.due("node(" + k + ", 3)", reader.node(k, 3), -2);
+            Check.due("node(" + k + ", -1)", reader.node(k, -1), -2);
+            Check.due("node(" + k + ", most)", reader.node(k, Integer.MAX_VALUE), -2);
+        }
+        int[] none = {-1, 6, 200, 201, Integer.MIN_VALUE, Integer.MAX_VALUE};
+        for (int k : none) {
+            Check.due("node(" + k + ", 0)", reader.node(k, 0), -2);
+            Check.due("place(" + k + ")", reader.place(k), -1);
+            Check.due("spelling(" + k + ", 0)", reader.spelling(k, 0), -1);
+        }
+    }
+
+    private static void everyCode() {
+        Check.verdict(PhaseReader.COMMENT, "/*");
+        Check.verdict(PhaseReader.CHARACTER, "$");
+        Check.verdict(PhaseReader.DIRECTIVE, "#x");
+        Check.verdict(PhaseReader.CONDITION, "#else");
+        Check.verdict(PhaseReader.NESTING, "#include <0>");
+        Check.verdict(PhaseReader.REDEFINED, "#define a\n#define a");
+        Check.verdict(PhaseReader.ROOM, "[[[[[[[");
+        Check.verdict(PhaseReader.CALL, "#define f()\nf(");
+        Check.verdict(PhaseReader.PASTE, "#define a +##+\na");
+        Check.verdict(PhaseReader.NUMBER, "1x");
+        Check.verdict(PhaseReader.SYNTAX, "x");
+        Check.verdict(0, "");
+    }
+
+    private static String whole(PhaseReader reader) {
+        return reader.verdict() + " " + Check.words(reader) + " / " + Check.places(reader) + " / "
+            + reader.replaced() + " " + reader.macros() + " / " + Check.tree(reader);
+    }
+}
