@@ -235,12 +235,21 @@ public final class PhaseReader {
         }
 
         static boolean isNumber(long spelled) {
-            int c = letter(spelled, 0);
+            long c = firstLetter(spelled);
             return c >= '0' && c <= '9';
         }
 
         static boolean isName(long spelled) {
-            return isWord(spelled) && !isNumber(spelled);
+            long c = firstLetter(spelled);
+            return isWord(c) && (c < '0' || c > '9');
+        }
+
+        private static long firstLetter(long spelled) {
+            long c = spelled;
+            for (int i = 1; i < LONGEST && c > LAST; i++) {
+                c >>= BITS;
+            }
+            return c;
         }
     }
 
@@ -249,6 +258,8 @@ public final class PhaseReader {
         /** The shortest line that opens a conditional has nine characters. */
         static final int CONDITIONALS = Text.MOST / 9 + 1;
 
+        int file;
+        boolean isRead;
         final TokenRow row = new TokenRow(Text.MOST);
         final int[] line = new int[Text.MOST];
         /** Whether no white space stands between a token and the one before it. */
@@ -264,7 +275,9 @@ public final class PhaseReader {
         /** Conditionals that are open and skipped whole. */
         int wholes;
 
-        void restart() {
+        void restart(int newFile) {
+            file = newFile;
+            isRead = false;
             row.size = 0;
             next = 0;
             group = 0;
@@ -351,11 +364,11 @@ public final class PhaseReader {
         private final int[] newlines = new int[Text.MOST + 1];
         private int size;
 
-        int read(Text text, int file, Source source) {
-            source.restart();
+        int read(Text text, Source source) {
+            source.isRead = true;
             replaceTrigraphs(text);
             joinLines();
-            return split(file, source);
+            return split(source);
         }
 
         private void replaceTrigraphs(Text text) {
@@ -398,7 +411,7 @@ public final class PhaseReader {
             }
         }
 
-        private int split(int file, Source source) {
+        private int split(Source source) {
             int line = 0;
             boolean glued = false;
             int at = 0;
@@ -415,7 +428,7 @@ public final class PhaseReader {
                     if (end == at || end - at > TokenRow.LONGEST) {
                         return CHARACTER;
                     }
-                    int place = FILE_STEP * file + 1 + newlines[at];
+                    int place = FILE_STEP * source.file + 1 + newlines[at];
                     source.add(pack(at, end), place, line, glued);
                 }
                 glued = !blank;
@@ -781,8 +794,8 @@ public final class PhaseReader {
     private static final class Preprocessor {
         private static final int MOST_OPEN = 4;
         private static final int MOST_INCLUDES = 10;
-        /** Every file that is read has at most as many lines as letters, and its end. */
-        private static final int MOST_STEPS = (MOST_INCLUDES + 1) * (Text.MOST + 1);
+        /** Every file that is opened is read, has at most as many lines as letters, and ends. */
+        private static final int MOST_STEPS = (MOST_INCLUDES + 1) * (Text.MOST + 2);
 
         final Expander expander = new Expander();
         private final Scanner scanner = new Scanner();
@@ -801,15 +814,22 @@ public final class PhaseReader {
             expander.restart();
             includes = 0;
             level = 0;
-            int wrong = scanner.read(files[file], file, sources[0]);
+            sources[0].restart(file);
+            int wrong = 0;
             for (int step = 0; step < MOST_STEPS && level >= 0 && wrong == 0; step++) {
                 Source source = sources[level];
-                wrong = source.next < source.row.size ? takeLine(source, files) : endFile(source);
+                if (!source.isRead) {
+                    wrong = scanner.read(files[source.file], source);
+                } else if (source.next < source.row.size) {
+                    wrong = takeLine(source);
+                } else {
+                    wrong = endFile(source);
+                }
             }
             return wrong;
         }
 
-        private int takeLine(Source source, Text[] files) {
+        private int takeLine(Source source) {
             int from = source.next;
             int to = source.lineEnd(from);
             source.next = to;
@@ -822,7 +842,7 @@ public final class PhaseReader {
             }
             int wrong = expander.expandGroup(source.row, source.group, from);
             source.group = to;
-            return wrong == 0 ? obey(source, from + 1, to, files) : wrong;
+            return wrong == 0 ? obey(source, from + 1, to) : wrong;
         }
 
         private int endFile(Source source) {
@@ -832,7 +852,7 @@ public final class PhaseReader {
         }
 
         /** Obeys the directive whose tokens behind the # are those from at to to. */
-        private int obey(Source source, int at, int to, Text[] files) {
+        private int obey(Source source, int at, int to) {
             if (at >= to) {
                 return 0;
             }
@@ -842,7 +862,7 @@ public final class PhaseReader {
                 return define(source, at + 1, to);
             }
             if (TokenRow.spells(word, "include")) {
-                return include(source.row, at + 1, to, files);
+                return include(source.row, at + 1, to);
             }
             if (TokenRow.spells(word, "else")) {
                 return alone ? source.turnToElse() : DIRECTIVE;
@@ -871,7 +891,7 @@ public final class PhaseReader {
             return DIRECTIVE;
         }
 
-        private int include(TokenRow row, int at, int to, Text[] files) {
+        private int include(TokenRow row, int at, int to) {
             if (at + 3 != to || row.text[at] != '<' || row.text[at + 2] != '>') {
                 return DIRECTIVE;
             }
@@ -884,8 +904,8 @@ public final class PhaseReader {
             }
             includes++;
             level++;
-            int file = (int) (digit - '0');
-            return scanner.read(files[file], file, sources[level]);
+            sources[level].restart((int) (digit - '0'));
+            return 0;
         }
 
         private int define(Source source, int at, int to) {
@@ -1131,7 +1151,7 @@ public final class PhaseReader {
                 }
                 tree.children[0]++;
             }
-            return true;
+            return at >= size;
         }
 
         /** A declaration or, where there may be one, a definition. */
@@ -1247,15 +1267,18 @@ public final class PhaseReader {
             if (depth > DEEPEST || !take('{')) {
                 return false;
             }
-            for (int turn = 0; turn < size && !take('}'); turn++) {
+            for (int turn = 0; turn < size; turn++) {
+                if (take('}')) {
+                    declarations = outer;
+                    return true;
+                }
                 boolean declares = startsDeclaration();
                 if (declares ? !takeDeclaration(false, depth) : !takeStatement(depth)) {
                     return false;
                 }
                 tree.children[start]++;
             }
-            declarations = outer;
-            return text[at - 1] == '}';
+            return false;
         }
 
         private boolean takeStatement(int depth) {

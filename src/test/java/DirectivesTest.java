@@ -27,7 +27,9 @@ public final class DirectivesTest {
             "#define a b ## ## c", "#define a(p)##p", "#define a() ##", "#undef", "#undef 1", "#undef a b",
             "#undef +", "#ifdef", "#ifdef 1", "#ifdef a b", "#ifndef", "#ifndef (", "#include", "#include 1",
             "#include <1", "#include <3>", "#include <a>", "#include <00>", "#include <1> 2", "#include <>",
-            "#include (1)", "#else 1", "#endif a", "#ifdef a\n#endif a", "#define a(p,q,r,s,p)", "# # define a"};
+            "#include (1)", "#else 1", "#endif a", "#ifdef a\n#endif a", "#define a(p,q,r,s,p)", "# # define a",
+            "#foo a", "#if a", "#include <1<", "#include >1>", "#define\nx y", "#define a(\n)", "#define a(p\n)",
+            "#define a(p,\nq)", "#define a(p,q,q)", "#define 0", "#define 9", "#define a(9)", "#undef\na", "#include\n<1>"};
         for (String file : wrong) {
             Check.verdict(PhaseReader.DIRECTIVE, file);
         }
@@ -64,6 +66,7 @@ public final class DirectivesTest {
         Check.comesOut("1 2", "#define a 1\na\n#undef a\n#define a 2\na");
         Check.comesOut("a", "#undef a\na");
         Check.comesOut("a 2 3", "#define a 1\n#define b 2\n#define c 3\n#undef a\na b c");
+        Check.comesOut("2 3", "#define a 1\n#define b 2\n#undef a\n#define c 3\nb c");
         Check.comesOut("1 b 3", "#define a 1\n#define b 2\n#define c 3\n#undef b\na b c");
     }
 
@@ -76,6 +79,7 @@ public final class DirectivesTest {
         Check.comesOut("x z", "#ifndef A\nx\n#else\ny\n#endif\nz");
         Check.comesOut("1 2 3", "#ifndef A\n1\n#ifndef B\n2\n#else\n9\n#endif\n3\n#else\n8\n#endif");
         Check.comesOut("2", "#ifndef A\n#define A\n#ifdef A\n2\n#endif\n#endif");
+        Check.comesOut("1 2", "#ifdef A\n#else\n1\n#endif\n#ifdef A\n#else\n2\n#endif");
         String[] faults = {"#else", "#endif", "#ifdef A", "#ifndef A", "#ifdef A\n#else", "#ifdef A\n#else\n#else\n#endif",
             "#ifndef A\n#else\n#else\n#endif", "#ifdef A\n#endif\n#endif", "#ifdef A\n#endif\n#else",
             "#ifdef A\n#ifdef B\n#endif", "#ifdef A\n#ifdef\n", "#ifndef A\n#ifndef B\n#endif"};
@@ -104,6 +108,9 @@ public final class DirectivesTest {
         Check.verdict(PhaseReader.CONDITION, "#ifdef A\n; #endif\n");
         Check.verdict(PhaseReader.CONDITION, "#ifdef A\n## endif\n");
         Check.verdict(0, "#ifdef A\nf(\n#endif");
+        Check.comesOut("y", "#ifdef A\nx endif\nx else\nx ifdef\n#endif\ny");
+        Check.comesOut("y", "#ifdef A\n#\nifdef B\n#endif\ny");
+        Check.comesOut("y", "#ifdef A\nx\n#\nendif\nx\n#endif\ny");
     }
 
     private static void includes() {
@@ -114,10 +121,10 @@ public final class DirectivesTest {
         Check.comesOut("a a a", "#ifndef A\n#define A\n#include <0>\n#include <0>\n#endif\na");
         Check.verdict(PhaseReader.NESTING, "#include <0>");
         Check.verdict(PhaseReader.NESTING, "#include <1>", "#include <2>", "#include <0>");
-        String fourth = "#define C\n#include <2>";
-        Check.comesOut("d", "#include <1>", "#ifdef B\n#include <2>\n#else\n#define B\n#include <1>\n#endif", "d");
-        Check.verdict(PhaseReader.NESTING, "#include <1>", "#ifdef B\n" + fourth + "\n#else\n#define B\n#include <1>\n#endif",
-            "#include <0>");
+        String twice = "#ifdef A\n#ifdef B\nd\n#else\n#define B\n#include <2>\n#endif\n"
+            + "#else\n#define A\n#include <2>\n#endif";
+        Check.comesOut("d", "#include <2>", "", twice);
+        Check.verdict(PhaseReader.NESTING, "#include <1>", "#include <2>", twice);
         String ten = "#include <1>\n".repeat(10);
         Check.comesOut("x x x x x x x x x x", ten, "x");
         Check.verdict(PhaseReader.NESTING, ten + "#include <1>", "x");

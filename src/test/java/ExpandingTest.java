@@ -71,6 +71,10 @@ public final class ExpandingTest {
         Check.comesOut("1 f ( )", "#define f() 1 f\nf()()");
         Check.comesOut("1 1 h", "#define f() 1 h\n#define h() f\nf()()()");
         Check.comesOut("f", "#define f() h()\n#define h() f\nf()");
+        Check.comesOut("z ( a ,", "#define z(p,q) p##q\n#define ab z(a,\nab b)");
+        Check.comesOut("z ( b ,", "#define z(p,q) q##p\n#define ab z(b,\nab a)");
+        Check.comesOut("ab", "#define z(p,q) p##q\n#define ab z(a,b)\nab");
+        Check.comesOut("1", "#define a 1##2\n#undef a\n#define f(p) p\nf(f(1))");
     }
 
     private static void pasting() {
@@ -122,6 +126,10 @@ public final class ExpandingTest {
         reader = Check.with("#define z(p,q) p##q\nz(\n,\n3 4)");
         reader.translate(0);
         Check.due("places beside an empty row", Check.places(reader), "4 4");
+        reader = Check.with("#define z(p,q) p##q\nz(\n1,\n2\n3\n4)");
+        reader.translate(0);
+        Check.due("words behind a seam", Check.words(reader), "12 3 4");
+        Check.due("places behind a seam", Check.places(reader), "2 5 6");
     }
 
     private static void rooms() {

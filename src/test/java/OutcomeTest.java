@@ -6,6 +6,7 @@ public final class OutcomeTest {
         noSuchFile();
         latestTranslation();
         faultsLeaveNoTokens();
+        nothingIsLeftBehind();
         nodeNumbers();
         everyCode();
         Check.end();
@@ -69,6 +70,37 @@ public final class OutcomeTest {
             Check.due("nodes of " + fault, reader.nodes(), 0);
             Check.due("node of " + fault, reader.node(0, 0), -2);
         }
+    }
+
+    /** What one translation leaves in the rows must not be seen by the next one. */
+    private static void nothingIsLeftBehind() {
+        after("typedef int T;", "T x;", PhaseReader.SYNTAX);
+        after("int x;", "int x", PhaseReader.SYNTAX);
+        after("int x", "int", PhaseReader.SYNTAX);
+        after("int f(){}", "int f{}", PhaseReader.SYNTAX);
+        after("#ifdef A", "int x;", 0);
+        after("#ifdef A", "#endif", PhaseReader.CONDITION);
+        after("#ifdef A\n#ifdef B", "#ifdef A\n#endif", 0);
+        after("#ifndef A\n#else", "#ifndef A\n#else\n#endif", 0);
+        after(";;=", "??", PhaseReader.CHARACTER);
+        after("x\n", "\\", PhaseReader.CHARACTER);
+        after("/**/", "/*", PhaseReader.COMMENT);
+        after("#define a", "#define a", 0);
+        after("#include <1>\n".repeat(10), "#include <1>\n".repeat(10), 0);
+        after("#include <0>", "#include <1>", 0);
+        after("#define a\n" + "a ".repeat(30), "#define a\n" + "a ".repeat(30), 0);
+        after("int x=(((((((", "int x=((((((1))))));", 0);
+        after("int f(){int a;", "int f(){}", 0);
+    }
+
+    private static void after(String first, String second, int want) {
+        PhaseReader reader = Check.with(first);
+        reader.translate(0);
+        Check.put(reader, 0, second);
+        Check.due("translate of " + second + " after " + first, reader.translate(0), want);
+        PhaseReader fresh = Check.with(second);
+        fresh.translate(0);
+        Check.due("tokens of " + second + " after " + first, Check.words(reader), Check.words(fresh));
     }
 
     private static void nodeNumbers() {

@@ -11,6 +11,7 @@ public final class ParsingTest {
         casts();
         typeNames();
         noUnits();
+        beginningsOfUnits();
         Check.end();
     }
 
@@ -25,6 +26,7 @@ public final class ParsingTest {
         Check.verdict(PhaseReader.SYNTAX, ")))((({{{");
         Check.verdict(PhaseReader.SYNTAX, "((([[[}(]");
         Check.verdict(PhaseReader.ROOM, ")}](((((((");
+        Check.verdict(PhaseReader.ROOM, "(1[x{;(=[,{#(");
         Check.verdict(0, "int f(){{{{{{;}}}}}}");
         Check.verdict(PhaseReader.ROOM, "int f(){{{{{{{;}}}}}}}");
         PhaseReader reader = Check.with("int x=1a;", "(((((((", "int");
@@ -170,10 +172,29 @@ public final class ParsingTest {
         String[] faults = {"x", "int", "int x", "int x,", "int x,;", "int =1;", "int x=;", "int x=1", "int 1;", "int *;", "int ();",
             "int (x;", "int x[];", "int x[y];", "int x[1;", "int x(1);", "int x(y);", "int int;", "int return;", "int char x;",
             "typedef;", "typedef int;", "typedef x y;", "typedef int x", "int x[1+1];", "int x=1 y;", "int x==1;", "int (x)y;",
-            "int x]", "##", ")", "int (*)();", "int &x;", "int x=1;}", "int x*;"};
+            "int x]", "##", ")", "int (*)();", "int &x;", "int x=1;}", "int x*;",
+            "int f(;", "int x=f(;", "int x=f(1,;", "int x=f(1;", "int x=(int;", "int x[;"};
         for (String file : faults) {
             Check.verdict(PhaseReader.SYNTAX, file);
         }
+    }
+
+    /** Only the beginnings that end with an item of the unit are units themselves. */
+    private static void beginningsOfUnits() {
+        String[] items = {"typedef int T , * U ; ", "int * ( * f ) ( ) = ( T * ) & g [ 1 ] ( 2 , - x ) , y [ 3 ] ; ",
+            "T h ( ) { T a = b ; { ; return a + 1 ; } return ; c ( ) ; } ", "char z ; "};
+        String file = String.join("", items);
+        for (int end = 0; end < file.length(); end++) {
+            if (end == 0 || file.charAt(end - 1) == ' ') {
+                String beginning = file.substring(0, end);
+                boolean whole = beginning.isEmpty();
+                for (int k = 1; k <= items.length; k++) {
+                    whole |= beginning.equals(String.join("", java.util.Arrays.copyOf(items, k)));
+                }
+                Check.verdict(whole ? 0 : PhaseReader.SYNTAX, beginning);
+            }
+        }
+        Check.verdict(0, file);
     }
 
     /** The tree of int f() with a block of these items. */

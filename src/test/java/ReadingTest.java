@@ -63,6 +63,7 @@ public final class ReadingTest {
         Check.comesOut("_a1 Z_9 _", "_a1 Z_9 _");
         Check.comesOut("a 12 + 1", "a 12+1");
         Check.verdict(PhaseReader.NUMBER, "0_x");
+        Check.verdict(PhaseReader.NUMBER, "9z");
         Check.comesOut("abcdefghi 123456789", "abcdefghi 123456789");
         Check.verdict(PhaseReader.CHARACTER, "abcdefghij");
         Check.verdict(PhaseReader.CHARACTER, "1234567890");
