@@ -91,6 +91,9 @@ public final class OutcomeTest {
         after("#define a\n" + "a ".repeat(30), "#define a\n" + "a ".repeat(30), 0);
         after("int x=(((((((", "int x=((((((1))))));", 0);
         after("int f(){int a;", "int f(){}", 0);
+        after("#define f()\n;f(;", "int x;", 0);
+        after("#define a +##+\na;", "int x;", 0);
+        after("#define f(p)\n#define g()\nf(x x g(1))", "#define f(p) p\nint x=f(f(1));", 0);
     }
 
     private static void after(String first, String second, int want) {
