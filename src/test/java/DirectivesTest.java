@@ -131,7 +131,7 @@ public final class DirectivesTest {
         Check.verdict(PhaseReader.NESTING, "#include <1>\n".repeat(6), "#include <2>", "x");
         Check.comesOut("x x x x x", "#include <1>\n".repeat(5), "#include <2>", "x");
         Check.verdict(PhaseReader.DIRECTIVE, ten + "#include <3>");
-        PhaseReader reader = Check.with(ten, "x");
+        Reader reader = Check.with(ten, "x");
         reader.translate(0);
         reader.translate(0);
         Check.due("ten includes again", reader.tokens(), 10);
@@ -169,7 +169,7 @@ public final class DirectivesTest {
         macros(0, "#define a\n$");
         macros(1, "#define a\nint x=1y;\n#");
         macros(3, "#define a\n#include <1>\n#define c", "#define b");
-        PhaseReader reader = Check.with("#define a", "a");
+        Reader reader = Check.with("#define a", "a");
         reader.translate(0);
         Check.due("macros", reader.macros(), 1);
         reader.translate(1);
@@ -178,7 +178,7 @@ public final class DirectivesTest {
     }
 
     private static void macros(int want, String... files) {
-        PhaseReader reader = Check.with(files);
+        Reader reader = Check.with(files);
         reader.translate(0);
         Check.due("macros of " + String.join(" | ", files), reader.macros(), want);
     }

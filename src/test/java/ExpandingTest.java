@@ -115,7 +115,7 @@ public final class ExpandingTest {
     }
 
     private static void places() {
-        PhaseReader reader = Check.with("#define f(p,q) <p p##q\n#define x y z\n\nf(\n1,\n2)\nx\n;");
+        Reader reader = Check.with("#define f(p,q) <p p##q\n#define x y z\n\nf(\n1,\n2)\nx\n;");
         reader.translate(0);
         Check.due("words", Check.words(reader), "< 1 12 y z ;");
         Check.due("places", Check.places(reader), "4 5 4 7 7 8");
@@ -171,7 +171,7 @@ public final class ExpandingTest {
         replaced(3, 1, "#define a\na\n#foo\na");
         replaced(2, 0, "#define a\na\n$");
         replaced(2, 1, "#define a\na\n#include <1>\n", "$");
-        PhaseReader reader = Check.with("#define a\na a", ";");
+        Reader reader = Check.with("#define a\na a", ";");
         reader.translate(0);
         Check.due("replaced", reader.replaced(), 2);
         reader.translate(1);
@@ -179,7 +179,7 @@ public final class ExpandingTest {
     }
 
     private static void replaced(int verdict, int want, String... files) {
-        PhaseReader reader = Check.with(files);
+        Reader reader = Check.with(files);
         Check.due("translate of " + String.join(" | ", files), reader.translate(0), verdict);
         Check.due("replaced of " + String.join(" | ", files), reader.replaced(), want);
     }

@@ -10,7 +10,7 @@ public final class FilesTest {
     }
 
     private static void newObject() {
-        PhaseReader reader = new PhaseReader();
+        Reader reader = new Reader();
         for (int file = 0; file < 3; file++) {
             Check.due("length of a new file", reader.length(file), 0);
         }
@@ -24,7 +24,7 @@ public final class FilesTest {
     }
 
     private static void choosing() {
-        PhaseReader reader = new PhaseReader();
+        Reader reader = new Reader();
         Check.due("write into the first file", reader.write('a'), true);
         Check.due("it is file 0", reader.length(0), 1);
         Check.due("choose 2", reader.choose(2), true);
@@ -46,14 +46,14 @@ public final class FilesTest {
 
     private static void writing() {
         for (int code = 0; code <= Character.MAX_VALUE; code++) {
-            PhaseReader reader = new PhaseReader();
+            Reader reader = new Reader();
             boolean may = code == 10 || code >= 32 && code <= 126;
             Check.due("write of code " + code, reader.write((char) code), may);
             Check.due("length after code " + code, reader.length(0), may ? 1 : 0);
             code += code > 400 ? 997 : 0;
         }
-        Check.due("write of code 65535", new PhaseReader().write((char) 65535), false);
-        PhaseReader reader = new PhaseReader();
+        Check.due("write of code 65535", new Reader().write((char) 65535), false);
+        Reader reader = new Reader();
         for (int i = 0; i < 160; i++) {
             Check.due("write number " + i, reader.write(i % 2 == 0 ? ';' : ' '), true);
         }
@@ -65,7 +65,7 @@ public final class FilesTest {
     }
 
     private static void clearing() {
-        PhaseReader reader = Check.with("int a;", "int b;");
+        Reader reader = Check.with("int a;", "int b;");
         reader.choose(0);
         reader.clear();
         Check.due("length of the cleared file", reader.length(0), 0);
@@ -80,7 +80,7 @@ public final class FilesTest {
     }
 
     private static void lengths() {
-        PhaseReader reader = Check.with("ab", "", "??=\n");
+        Reader reader = Check.with("ab", "", "??=\n");
         Check.due("length 0", reader.length(0), 2);
         Check.due("length 1", reader.length(1), 0);
         Check.due("length 2, as written", reader.length(2), 4);

@@ -13,7 +13,7 @@ public final class OutcomeTest {
     }
 
     private static void noSuchFile() {
-        PhaseReader reader = Check.with("#define a 1\nint x=a;");
+        Reader reader = Check.with("#define a 1\nint x=a;");
         for (int file : NO_FILES) {
             Check.due("translate(" + file + ") at first", reader.translate(file), -1);
             Check.due("verdict", reader.verdict(), 0);
@@ -29,7 +29,7 @@ public final class OutcomeTest {
     }
 
     private static void latestTranslation() {
-        PhaseReader reader = Check.with("#define a 1\nint x=a;", "int y;", "(");
+        Reader reader = Check.with("#define a 1\nint x=a;", "int y;", "(");
         Check.due("file 0", reader.translate(0), 0);
         String first = whole(reader);
         reader.choose(0);
@@ -58,7 +58,7 @@ public final class OutcomeTest {
         String[] faults = {"/*", "$", "#x", "#endif", "#include <1>", "#define a\n#define a", "#define a(p,q,r,s)",
             "#define f()\nf(", "#define a +##+\na", ";".repeat(101)};
         for (String fault : faults) {
-            PhaseReader reader = Check.with("int x;", "#include <1>");
+            Reader reader = Check.with("int x;", "#include <1>");
             reader.translate(0);
             Check.put(reader, 0, fault.startsWith("#") ? "int y;\n" + fault : fault);
             int verdict = reader.translate(0);
@@ -97,17 +97,17 @@ public final class OutcomeTest {
     }
 
     private static void after(String first, String second, int want) {
-        PhaseReader reader = Check.with(first);
+        Reader reader = Check.with(first);
         reader.translate(0);
         Check.put(reader, 0, second);
         Check.due("translate of " + second + " after " + first, reader.translate(0), want);
-        PhaseReader fresh = Check.with(second);
+        Reader fresh = Check.with(second);
         fresh.translate(0);
         Check.due("tokens of " + second + " after " + first, Check.words(reader), Check.words(fresh));
     }
 
     private static void nodeNumbers() {
-        PhaseReader reader = Check.with("int x=-1;");
+        Reader reader = Check.with("int x=-1;");
         reader.translate(0);
         int[][] nodes = {{0, -1, 1}, {1, 0, 2}, {3, 0, 0}, {4, 1, 1}, {13, 3, 1}, {18, 4, 0}};
         Check.due("nodes", reader.nodes(), nodes.length);
@@ -142,7 +142,7 @@ public final class OutcomeTest {
         Check.verdict(0, "");
     }
 
-    private static String whole(PhaseReader reader) {
+    private static String whole(Reader reader) {
         return reader.verdict() + " " + Check.words(reader) + " / " + Check.places(reader) + " / "
             + reader.replaced() + " " + reader.macros() + " / " + Check.tree(reader);
     }

@@ -29,7 +29,7 @@ public final class ParsingTest {
         Check.verdict(PhaseReader.ROOM, "(1[x{;(=[,{#(");
         Check.verdict(0, "int f(){{{{{{;}}}}}}");
         Check.verdict(PhaseReader.ROOM, "int f(){{{{{{{;}}}}}}}");
-        PhaseReader reader = Check.with("int x=1a;", "(((((((", "int");
+        Reader reader = Check.with("int x=1a;", "(((((((", "int");
         reader.translate(0);
         Check.due("tokens at NUMBER", Check.words(reader), "int x = 1a ;");
         Check.due("nodes at NUMBER", reader.nodes(), 0);

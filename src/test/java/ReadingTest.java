@@ -73,7 +73,7 @@ public final class ReadingTest {
         for (char c : others.toCharArray()) {
             Check.verdict(PhaseReader.CHARACTER, "int x" + c + ";");
         }
-        PhaseReader reader = Check.with("ab == 7");
+        Reader reader = Check.with("ab == 7");
         reader.translate(0);
         Check.due("spelling(0, 0)", reader.spelling(0, 0), 'a');
         Check.due("spelling(0, 1)", reader.spelling(0, 1), 'b');
@@ -96,7 +96,7 @@ public final class ReadingTest {
         placesOf("\\\na", "a", "2");
         placesOf("a /*\n\n*/ ??(??/\n??)", "a [ ]", "1 3 4");
         placesOf("\n//\n\n  x", "x", "4");
-        PhaseReader reader = Check.with("a\n#include <2>\nb", "e", "\nc d\n#include <1>\n");
+        Reader reader = Check.with("a\n#include <2>\nb", "e", "\nc d\n#include <1>\n");
         reader.translate(0);
         Check.due("words over files", Check.words(reader), "a c d e b");
         Check.due("places over files", Check.places(reader), "1 2002 2002 1001 3");
@@ -108,7 +108,7 @@ public final class ReadingTest {
     }
 
     private static void placesOf(String text, String words, String want) {
-        PhaseReader reader = Check.with(text);
+        Reader reader = Check.with(text);
         reader.translate(0);
         Check.due("words of " + text, Check.words(reader), words);
         Check.due("places of " + text, Check.places(reader), want);
