@@ -1,9 +1,10 @@
 /** The edges of promises 7 to 14: what is asked of a translation, a sentence of the document a method. */
 public final class AnswersEdgesTest {
     /** For each code a file 0 that answers it, with macros and replaced tokens before; code 0 first. */
-    private static final String[] CODES = {"#define a 1\nint x=a;", "#define a\na\n/*", "#define a\na\n$", "#define a\na\n#x", "#define a\na\n#else",
-        "#undef a\n#define a\na\n#include <0>", "#define a\na\n#define a", "#define a\na\n#define f(p,q,r,s)", "#define a\n#define f()\na f(",
-        "#define a +##+\na", "#define a 1y\na", "#define a x\na"};
+    private static final String[] CODES = {"#define a 1\nint x=a;", "#define a\na\n/*", "#define a\na\n$",
+        "#define a\na\n#x", "#define a\na\n#else", "#undef a\n#define a\na\n#include <0>", "#define a\na\n#define a",
+        "#define a\na\n#define f(p,q,r,s)", "#define a\n#define f()\na f(", "#define a +##+\na", "#define a 1y\na",
+        "#define a x\na"};
     private static final int[] REPLACED = {1, 0, 0, 1, 1, 4, 1, 1, 1, 1, 1, 1};
     private static final int[] MACROS = {1, 0, 0, 1, 1, 1, 1, 1, 2, 1, 1, 1};
 
@@ -183,7 +184,8 @@ public final class AnswersEdgesTest {
             reader.translate(0);
             Check.due("nodes of code " + code, reader.nodes(), code == 0 ? 5 : 0);
         }
-        for (String file : new String[] {"int x", "int f(){;;;", "int x=1+2+;", "int x;int y;z", "(", "int x=(((((((1)))))));", "int x=1y;"}) {
+        for (String file : new String[] {"int x", "int f(){;;;", "int x=1+2+;", "int x;int y;z", "(",
+            "int x=(((((((1)))))));", "int x=1y;"}) {
             Check.due("nodes of " + file, Check.translated(file).nodes(), 0);
         }
     }
@@ -223,7 +225,8 @@ public final class AnswersEdgesTest {
         int[] unit = {0, -1, 0};
         for (Reader reader : new Reader[] {new Reader(), Check.translated(""), Check.translated("#define a\na")}) {
             for (int what = -1; what <= 3; what++) {
-                Check.due("node(0, " + what + ") of the unit", reader.node(0, what), what < 0 || what > 2 ? -2 : unit[what]);
+                Check.due("node(0, " + what + ") of the unit", reader.node(0, what), what < 0 || what > 2 ? -2
+                    : unit[what]);
                 Check.due("node(1, " + what + ") of the unit", reader.node(1, what), -2);
                 Check.due("node(-1, " + what + ") of the unit", reader.node(-1, what), -2);
             }

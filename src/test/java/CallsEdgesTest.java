@@ -226,7 +226,8 @@ public final class CallsEdgesTest {
         Reader fresh = new Reader();
         Check.changesNothing("translate(3) at first", fresh, () -> Check.due("translate(3)", fresh.translate(3), -1));
         Reader written = Check.with(FILES);
-        Check.changesNothing("translate(-1) of files", written, () -> Check.due("translate(-1)", written.translate(-1), -1));
+        Check.changesNothing("translate(-1) of files", written, () -> Check.due("translate(-1)", written.translate(-1),
+            -1));
         for (int code = 0; code < CODES.length; code++) {
             for (int file : new int[] {-1, 3, Integer.MIN_VALUE, Integer.MAX_VALUE}) {
                 Reader reader = Check.with(CODES[code], FILES[1], FILES[2]);

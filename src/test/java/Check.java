@@ -189,7 +189,7 @@ final class Check {
             tree.append(child == 0 ? '[' : ' ');
             next = addNode(reader, next, tree);
         }
-        tree.append(children > 0 ? "]" : "");
+        tree.append(children > 0 ? "]" : children < 0 ? " with " + children + " children" : "");
         return next;
     }
 

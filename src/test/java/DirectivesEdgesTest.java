@@ -107,7 +107,8 @@ public final class DirectivesEdgesTest {
 
     /** "(A group is expanded before the directive .. that ends it is looked at.)" */
     private static void groupBeforeDirective() {
-        for (String directive : new String[] {"#x", "#else", "#endif", "#include <3>", "#define f(p)", "#define", "#define f"}) {
+        for (String directive : new String[] {"#x", "#else", "#endif", "#include <3>", "#define f(p)", "#define",
+            "#define f"}) {
             Check.counts(PhaseReader.CALL, 0, 0, 1, CALL + "f(\n" + directive);
             Check.counts(PhaseReader.ROOM, 0, 0, 0, ";".repeat(101) + "\n" + directive);
         }
@@ -138,8 +139,9 @@ public final class DirectivesEdgesTest {
 
     /** "else DIRECTIVE". */
     private static void unknownDirectives() {
-        for (String word : new String[] {"defin", "defines", "DEFINE", "Define", "_define", "undefx", "unde", "ifde", "ifdefs", "if",
-            "ifnde", "ifndefs", "els", "elses", "elif", "endi", "endifs", "includ", "includes", "int", "a", "pragma"}) {
+        for (String word : new String[] {"defin", "defines", "DEFINE", "Define", "_define", "undefx", "unde", "ifde",
+            "ifdefs", "if", "ifnde", "ifndefs", "els", "elses", "elif", "endi", "endifs", "includ", "includes", "int",
+            "a", "pragma"}) {
             Check.verdict(PhaseReader.DIRECTIVE, "#" + word);
             Check.verdict(PhaseReader.DIRECTIVE, "#" + word + " a");
             Check.verdict(PhaseReader.DIRECTIVE, "#" + word + " <1>");
@@ -190,12 +192,14 @@ public final class DirectivesEdgesTest {
 
     /** "there are no or more p, all different, and ) closes them". */
     private static void parameters() {
-        for (String right : new String[] {"()", "( )", "(p)", "(p,q)", "(p , q)", "(p,q,r)", "(p,P,_)", "(f)", "(define,f,p)"}) {
+        for (String right : new String[] {"()", "( )", "(p)", "(p,q)", "(p , q)", "(p,q,r)", "(p,P,_)", "(f)",
+            "(define,f,p)"}) {
             Check.counts(0, 0, 0, 1, "#define f" + right);
             Check.counts(0, 0, 0, 1, "#define f" + right + "1");
         }
-        for (String wrong : new String[] {"(", "(p", "(p,", "(p,q", "(p,q,", "(,", "(,)", "(,p)", "(p,)", "(p,,q)", "(p q)", "(p;q)",
-            "((p))", "(p,(q))", "(p,p)", "(p,q,p)", "(p,q,q)", "(p,p,q)", "(p,q,r,p)", "(p,q,r,s,s)", "(p]", "(p\n)", "(\n)"}) {
+        for (String wrong : new String[] {"(", "(p", "(p,", "(p,q", "(p,q,", "(,", "(,)", "(,p)", "(p,)", "(p,,q)",
+            "(p q)", "(p;q)", "((p))", "(p,(q))", "(p,p)", "(p,q,p)", "(p,q,q)", "(p,p,q)", "(p,q,r,p)", "(p,q,r,s,s)",
+            "(p]", "(p\n)", "(\n)"}) {
             Check.counts(PhaseReader.DIRECTIVE, 0, 0, 0, "#define f" + wrong);
         }
         Check.comesOut("[ 1 2 3 ]", "#define f(p,q,r) [p q r]\nf(1,2,3)");
@@ -204,13 +208,18 @@ public final class DirectivesEdgesTest {
 
     /** "A body is none or more tokens, the first and last of which are not ##, and no two ## side by side." */
     private static void bodies() {
+        for (String next : new String[] {"##", "## ##", "a##", "(p)", "##b"}) {
+            Check.verdict(PhaseReader.SYNTAX, "#define f\n" + next);
+            Check.verdict(PhaseReader.SYNTAX, "#define f b\n" + next);
+            Check.verdict(PhaseReader.SYNTAX, "#define f()\n" + next);
+        }
         for (String head : new String[] {"#define f ", "#define f() ", "#define f(p) ", "#define f(p,q)"}) {
-            for (String right : new String[] {"", "1", "#", "a##b", "p##p", "a##b##c", "a##b c##d", "# ## #", "a ###", "a ## ( ## b", "= ##=",
-                "1##2##3##4##5##6"}) {
+            for (String right : new String[] {"", "1", "#", "a##b", "p##p", "a##b##c", "a##b c##d", "# ## #", "a ###",
+                "a ## ( ## b", "= ##=", "1##2##3##4##5##6"}) {
                 Check.counts(0, 0, 0, 1, head + right);
             }
-            for (String wrong : new String[] {"##", "## ##", "##a", "a##", "## a ##", "a## ##b", "a b## ##", "a##b##", "##a##b",
-                "a## ## ##b", "a##b## ##c", "####", "a####b", "### a", "a # ##"}) {
+            for (String wrong : new String[] {"##", "## ##", "##a", "a##", "## a ##", "a## ##b", "a b## ##", "a##b##",
+                "##a##b", "a## ## ##b", "a##b## ##c", "####", "a####b", "### a", "a # ##"}) {
                 Check.counts(PhaseReader.DIRECTIVE, 0, 0, 0, head + wrong);
             }
         }
@@ -222,9 +231,9 @@ public final class DirectivesEdgesTest {
         Check.comesOut("x y", "#include <1>\n#include <2>", "x", "y");
         Check.comesOut("x", "#include/**/ < /**/ 1 >//\n", "x");
         Check.comesOut("x", "#include <\\\n1>", "x");
-        for (String wrong : new String[] {"", "1", "<", "<1", "<>", "1>", "<3>", "<4>", "<9>", "<00>", "<01>", "<02>", "<10>", "<1a>",
-            "<a>", "<-1>", "<+1>", "<1>>", "<1> 1", "<<1>", "<1 2>", "<1>;", ">1<", ">1>", "<1<", "(1)", "<1)", "[1]", "<#>", "<_>",
-            "<\n1>", "<;>", "</>", "<0", "<2 >>"}) {
+        for (String wrong : new String[] {"", "1", "<", "<1", "<>", "1>", "<3>", "<4>", "<9>", "<00>", "<01>", "<02>",
+            "<10>", "<1a>", "<a>", "<-1>", "<+1>", "<1>>", "<1> 1", "<<1>", "<1 2>", "<1>;", ">1<", ">1>", "<1<", "(1)",
+            "<1)", "[1]", "<#>", "<_>", "<\n1>", "<;>", "</>", "<0", "<2 >>"}) {
             Check.verdict(PhaseReader.DIRECTIVE, "#include " + wrong, "", "");
         }
         Check.verdict(PhaseReader.DIRECTIVE, "#define a 1\n#include <a>", "");
@@ -321,7 +330,8 @@ public final class DirectivesEdgesTest {
         for (char gone = 'a'; gone <= 'h'; gone++) {
             String uses = "a b c d e f g h";
             Check.comesOut(String.valueOf(gone), EIGHT + "#include <1>\n" + uses, "#undef " + gone);
-            Check.counts(PhaseReader.REDEFINED, 0, 0, 7, EIGHT + "#include <1>", "#undef " + gone + "\n#define " + (gone == 'a' ? 'b' : 'a'));
+            Check.counts(PhaseReader.REDEFINED, 0, 0, 7, EIGHT + "#include <1>", "#undef " + gone + "\n#define "
+                + (gone == 'a' ? 'b' : 'a'));
         }
     }
 
@@ -389,8 +399,9 @@ public final class DirectivesEdgesTest {
 
     /** "or the end of a file where a conditional is open". */
     private static void endOfFileInConditional() {
-        for (String file : new String[] {"#ifdef A", "#ifndef A", "#ifdef A\n#else", "#ifndef A\n#else", "#ifdef A\n#ifdef B\n#endif",
-            "#ifndef A\n#ifndef B\n#endif", "#ifndef A\n#ifdef B\n#endif\n", "#ifdef A\n#ifdef B\n#else\n#endif", "#ifdef A\n#endif\n#ifdef A"}) {
+        for (String file : new String[] {"#ifdef A", "#ifndef A", "#ifdef A\n#else", "#ifndef A\n#else",
+            "#ifdef A\n#ifdef B\n#endif", "#ifndef A\n#ifndef B\n#endif", "#ifndef A\n#ifdef B\n#endif\n",
+            "#ifdef A\n#ifdef B\n#else\n#endif", "#ifdef A\n#endif\n#ifdef A"}) {
             Check.verdict(PhaseReader.CONDITION, file);
             Check.verdict(0, file + "\n#endif");
             Check.verdict(PhaseReader.CONDITION, "#include <1>\n#endif", file);
@@ -400,8 +411,8 @@ public final class DirectivesEdgesTest {
 
     /** "each line that begins with # and ifdef or ifndef opens a conditional, whatever follows; it is skipped whole". */
     private static void skippedWhole() {
-        for (String opening : new String[] {"#ifdef B", "#ifndef B", "#ifdef", "#ifndef", "#ifdef 1", "#ifndef (", "#ifdef B C", "# /**/ ifdef ##",
-            "#ifdef A", "#ifndef A"}) {
+        for (String opening : new String[] {"#ifdef B", "#ifndef B", "#ifdef", "#ifndef", "#ifdef 1", "#ifndef (",
+            "#ifdef B C", "# /**/ ifdef ##", "#ifdef A", "#ifndef A"}) {
             String head = "#ifdef A\n" + opening + "\n";
             Check.comesOut("z", head + "x\n#endif\ny\n#endif\nz");
             Check.comesOut("z", head + "#else\nx\n#endif\ny\n#endif\nz");
@@ -410,8 +421,8 @@ public final class DirectivesEdgesTest {
             Check.comesOut("y", "#ifndef A\ny\n#else\n" + opening + "\n#else\nx\n#endif\nx\n#endif");
             Check.verdict(PhaseReader.CONDITION, head + "#endif");
         }
-        for (String text : new String[] {"ifdef B", "x #ifdef B", "##ifdef B", "#\nifdef B", "#ifdefs B", "#if B", "#1 ifdef", "# # ifdef",
-            "/*#ifdef*/", "//#ifdef B", "#define ifdef", "#undef ifdef", "#IFDEF B"}) {
+        for (String text : new String[] {"ifdef B", "x #ifdef B", "##ifdef B", "#\nifdef B", "#ifdefs B", "#if B",
+            "#1 ifdef", "# # ifdef", "/*#ifdef*/", "//#ifdef B", "#define ifdef", "#undef ifdef", "#IFDEF B"}) {
             Check.comesOut("z", "#ifdef A\n" + text + "\n#endif\nz");
         }
     }
@@ -427,17 +438,24 @@ public final class DirectivesEdgesTest {
         Check.verdict(PhaseReader.CONDITION, "#ifndef A\n".repeat(8) + "x\n" + "#endif\n".repeat(9));
         Check.verdict(PhaseReader.CONDITION, "#ifndef A\n".repeat(16));
         Check.verdict(PhaseReader.CONDITION, "#define A\n" + "#ifdef A\n".repeat(16));
+        for (int code : new int[] {PhaseReader.DIRECTIVE, PhaseReader.CONDITION}) {
+            String last = code == PhaseReader.DIRECTIVE ? "#x" : "#endif";
+            Check.verdict(code, "#define A\n#include <1>", "#ifdef A\n".repeat(17) + last);
+            Check.verdict(code, "#ifndef A\n".repeat(15) + last);
+        }
         Check.comesOut("x", "#ifndef A\n#else\n".repeat(3) + "#ifdef A\n".repeat(3) + "#endif\n".repeat(6) + "x");
     }
 
     /** "Other skipped lines do nothing". */
     private static void otherSkippedLines() {
-        for (String line : new String[] {"#", "#x", "#define", "#define B", "#define A", "#define B(", "#define B ##", "#undef", "#undef Z",
-            "#include", "#include <0>", "#include <1>", "#include <3>", "f(", ";;;;", "#define f()\nf(", "##", "# 1", "1x", "(((((((", "+##+"}) {
+        for (String line : new String[] {"#", "#x", "#define", "#define B", "#define A", "#define B(", "#define B ##",
+            "#undef", "#undef Z", "#include", "#include <0>", "#include <1>", "#include <3>", "f(", ";;;;",
+            "#define f()\nf(", "##", "# 1", "1x", "(((((((", "+##+"}) {
             Check.counts(0, 0, 0, 1, "#define Z\n#ifdef A\n" + line + "\n#endif", "$");
             Check.counts(0, 0, 0, 1, "#define Z\n#ifndef Z\n" + line + "\n#else\n#endif", "$");
             Check.counts(0, 0, 0, 1, "#define Z\n#ifdef Z\n#else\n" + line + "\n#endif", "$");
-            Check.counts(0, 0, 0, 1, "#define Z\n#ifdef A\n#ifdef Z\n" + line + "\n#else\n" + line + "\n#endif\n#endif", "$");
+            Check.counts(0, 0, 0, 1, "#define Z\n#ifdef A\n#ifdef Z\n" + line + "\n#else\n" + line + "\n#endif\n#endif",
+                "$");
         }
         Check.verdict(PhaseReader.CHARACTER, "#ifdef A\n$\n#endif");
         Check.verdict(PhaseReader.COMMENT, "#ifdef A\n/*\n#endif");
@@ -470,7 +488,8 @@ public final class DirectivesEdgesTest {
         for (int file = 0; file < 3; file++) {
             String more = "#ifdef A\n#include <" + file + ">\n#else\n#define A\n#include <2>\n#endif\nx";
             Check.counts(PhaseReader.NESTING, 0, 0, 1, "#include <1>", more, "#include <1>\ny");
-            Check.counts(PhaseReader.NESTING, 0, 0, 0, "#include <" + file + ">", "#include <" + file + ">", "#include <" + file + ">");
+            Check.counts(PhaseReader.NESTING, 0, 0, 0, "#include <" + file + ">", "#include <" + file + ">",
+                "#include <" + file + ">");
         }
         String bad = "#ifdef A\n#include <3>\n#else\n#define A\n#include <2>\n#endif\nx";
         Check.verdict(PhaseReader.DIRECTIVE, "#include <1>", bad, "#include <1>\ny");

@@ -16,20 +16,20 @@ public final class DirectivesTest {
         String[] right = {"#", " # ", "#define a", "#define a b", "#define a()", "#define a(p) p",
             "#define a(p , q,r) p", "# define a (p", "#define a/**/(", "#define a (1) ##b", "#undef a",
             "#ifdef a\n#endif", "#ifndef a\n#else\n#endif", "#include <1>", "#include < 2 >",
-            "#/**/define/**/int/**/char", "#define define define", "#define a b##c##d", "#define a # b",
-            "#define a+1", "#define a(p)p", "#define a(a) a"};
+            "#/**/define/**/int/**/char", "#define define define", "#define a b##c##d", "#define a # b", "#define a+1",
+            "#define a(p)p", "#define a(a) a"};
         for (String file : right) {
             Check.verdict(0, file);
         }
-        String[] wrong = {"# a", "# 1", "##\n#x", "#if", "#define", "#define 1", "#define (", "#define a(", "#define a(p",
-            "#define a(p,", "#define a(p,)", "#define a(,p)", "#define a(p q)", "#define a(1)", "#define a(p,p)",
-            "#define a(p,q,p) x", "#define a((p)", "#define a ##", "#define a ##b", "#define a b##",
-            "#define a b ## ## c", "#define a(p)##p", "#define a() ##", "#undef", "#undef 1", "#undef a b",
-            "#undef +", "#ifdef", "#ifdef 1", "#ifdef a b", "#ifndef", "#ifndef (", "#include", "#include 1",
-            "#include <1", "#include <3>", "#include <a>", "#include <00>", "#include <1> 2", "#include <>",
-            "#include (1)", "#else 1", "#endif a", "#ifdef a\n#endif a", "#define a(p,q,r,s,p)", "# # define a",
-            "#foo a", "#if a", "#include <1<", "#include >1>", "#define\nx y", "#define a(\n)", "#define a(p\n)",
-            "#define a(p,\nq)", "#define a(p,q,q)", "#define 0", "#define 9", "#define a(9)", "#undef\na", "#include\n<1>"};
+        String[] wrong = {"# a", "# 1", "##\n#x", "#if", "#define", "#define 1", "#define (", "#define a(",
+            "#define a(p", "#define a(p,", "#define a(p,)", "#define a(,p)", "#define a(p q)", "#define a(1)",
+            "#define a(p,p)", "#define a(p,q,p) x", "#define a((p)", "#define a ##", "#define a ##b", "#define a b##",
+            "#define a b ## ## c", "#define a(p)##p", "#define a() ##", "#undef", "#undef 1", "#undef a b", "#undef +",
+            "#ifdef", "#ifdef 1", "#ifdef a b", "#ifndef", "#ifndef (", "#include", "#include 1", "#include <1",
+            "#include <3>", "#include <a>", "#include <00>", "#include <1> 2", "#include <>", "#include (1)", "#else 1",
+            "#endif a", "#ifdef a\n#endif a", "#define a(p,q,r,s,p)", "# # define a", "#foo a", "#if a", "#include <1<",
+            "#include >1>", "#define\nx y", "#define a(\n)", "#define a(p\n)", "#define a(p,\nq)", "#define a(p,q,q)",
+            "#define 0", "#define 9", "#define a(9)", "#undef\na", "#include\n<1>"};
         for (String file : wrong) {
             Check.verdict(PhaseReader.DIRECTIVE, file);
         }
@@ -80,9 +80,10 @@ public final class DirectivesTest {
         Check.comesOut("1 2 3", "#ifndef A\n1\n#ifndef B\n2\n#else\n9\n#endif\n3\n#else\n8\n#endif");
         Check.comesOut("2", "#ifndef A\n#define A\n#ifdef A\n2\n#endif\n#endif");
         Check.comesOut("1 2", "#ifdef A\n#else\n1\n#endif\n#ifdef A\n#else\n2\n#endif");
-        String[] faults = {"#else", "#endif", "#ifdef A", "#ifndef A", "#ifdef A\n#else", "#ifdef A\n#else\n#else\n#endif",
-            "#ifndef A\n#else\n#else\n#endif", "#ifdef A\n#endif\n#endif", "#ifdef A\n#endif\n#else",
-            "#ifdef A\n#ifdef B\n#endif", "#ifdef A\n#ifdef\n", "#ifndef A\n#ifndef B\n#endif"};
+        String[] faults = {"#else", "#endif", "#ifdef A", "#ifndef A", "#ifdef A\n#else",
+            "#ifdef A\n#else\n#else\n#endif", "#ifndef A\n#else\n#else\n#endif", "#ifdef A\n#endif\n#endif",
+            "#ifdef A\n#endif\n#else", "#ifdef A\n#ifdef B\n#endif", "#ifdef A\n#ifdef\n",
+            "#ifndef A\n#ifndef B\n#endif"};
         for (String file : faults) {
             Check.verdict(PhaseReader.CONDITION, file);
         }

@@ -32,6 +32,7 @@ public final class ExpandingEdgesTest {
         tokensOfReplacement();
         pasteBeforeRoom();
         hideSetOfPlainMacro();
+        fullestHideSet();
         hideSetOfCallMacro();
         firstTokenOfReplacement();
         Check.end();
@@ -77,7 +78,8 @@ public final class ExpandingEdgesTest {
                     "#define " + heads[parameters] + " x\n" + call);
                 String empty = "f(" + ",".repeat(arguments - 1) + ")";
                 boolean none = arguments == 1 && parameters == 0;
-                Check.counts(fits || none ? PhaseReader.SYNTAX : PhaseReader.CALL, fits || none ? 1 : 0, fits || none ? 1 : 0, 1,
+                Check.counts(fits || none ? PhaseReader.SYNTAX : PhaseReader.CALL, fits || none ? 1 : 0, fits || none
+                    ? 1 : 0, 1,
                     "#define " + heads[parameters] + " x\n" + empty);
             }
         }
@@ -124,7 +126,8 @@ public final class ExpandingEdgesTest {
     /** "CALL if there is no such ) in the list". */
     private static void callWithoutEnd() {
         String head = "#define f(p) [p]\n#define g() 1\n";
-        for (String text : new String[] {"f(", "f(1", "f((1)", "f((", "f(()", "f(f(1)", "f(f", "g(", "g(()", "f(1\n", "x f(", "f(1,", "f(g("}) {
+        for (String text : new String[] {"f(", "f(1", "f((1)", "f((", "f(()", "f(f(1)", "f(f", "g(", "g(()", "f(1\n",
+            "x f(", "f(1,", "f(g("}) {
             Check.counts(PhaseReader.CALL, 0, 0, 2, head + text);
         }
         Check.verdict(PhaseReader.CALL, head + "f(1\n#\n)");
@@ -175,7 +178,8 @@ public final class ExpandingEdgesTest {
         Check.counts(0, 0, 30, 1, "#define a\n" + "a\n#\n".repeat(30));
         Check.counts(PhaseReader.ROOM, 0, 30, 1, "#define a\n" + "a\n#\n".repeat(31));
         Check.counts(0, 0, 30, 1, "#define a\n" + "a ".repeat(15) + "\n#include <1>", "a ".repeat(15));
-        Check.counts(PhaseReader.ROOM, 0, 30, 1, "#define a\n" + "a ".repeat(15) + "\n#include <1>\na", "a ".repeat(15));
+        Check.counts(PhaseReader.ROOM, 0, 30, 1, "#define a\n" + "a ".repeat(15) + "\n#include <1>\na",
+            "a ".repeat(15));
         Check.counts(0, 0, 30, 2, "#define a b b\n#define b\n" + "a ".repeat(10));
         Check.counts(PhaseReader.ROOM, 0, 30, 2, "#define a b b\n#define b\n" + "a ".repeat(10) + "b");
         Check.counts(0, 0, 30, 1, "#define f(p)\n" + "f(f(f()))".repeat(10));
@@ -315,7 +319,8 @@ public final class ExpandingEdgesTest {
 
     /** The same: of the punctuators only # # and = = make another one. */
     private static void joinedPunctuators() {
-        String[] tokens = {"(", ")", "[", "]", "{", "}", ";", ",", "=", "+", "-", "*", "/", "&", "<", ">", "#", "==", "a", "1"};
+        String[] tokens = {"(", ")", "[", "]", "{", "}", ";", ",", "=", "+", "-", "*", "/", "&", "<", ">", "#", "==",
+            "a", "1"};
         for (String left : tokens) {
             for (String right : tokens) {
                 boolean words = "a1".contains(left) && "a1".contains(right);
@@ -325,7 +330,8 @@ public final class ExpandingEdgesTest {
                 Check.counts(words || twice ? code : PhaseReader.PASTE, words || twice ? 2 : 0, 1, 1, file);
             }
         }
-        for (String arguments : new String[] {"##,##", "##,#", "#,##", "##,a", "a,##", "##,1", "==,=", "=,==", "==,==", "=,#", "#,="}) {
+        for (String arguments : new String[] {"##,##", "##,#", "#,##", "##,a", "a,##", "##,1", "==,=", "=,==", "==,==",
+            "=,#", "#,="}) {
             Check.verdict(PhaseReader.PASTE, PASTE + "z(" + arguments + ")");
         }
     }
@@ -354,6 +360,12 @@ public final class ExpandingEdgesTest {
         Check.comesOut("ab", PASTE + "#define ab z(a,b)\nab");
         Check.comesOut("7", PASTE + "#define ab 7\n#define x z(a,b)\nx");
         Check.comesOut("z ( a ,", PASTE + "#define ab z(a,\nab b)");
+        Check.comesOut("z ( b ,", "#define z(p,q) q##p\n#define ab z(b,\nab a)");
+        Check.comesOut("ab", PASTE + "#define ab z(a,b\nab)");
+        Check.comesOut("ab", "#define ab z(b,a\n#define z(p,q) q##p\nab)");
+        Check.comesOut("abc", "#define z(p,q,r) p##q##r\n#define abc z(a,b,c\nabc)");
+        Check.comesOut("z ( a , b ,", "#define z(p,q,r) p##q##r\n#define abc z(a,b,\nabc c)");
+        Check.comesOut("z ( b , c ,", "#define z(p,q,r) r##p##q\n#define abc z(b,c,\nabc a)");
         Check.comesOut("7 b", "#define y(p) p b\n#define ab 7\n" + PASTE + "y(z(a,b))");
         Check.comesOut("z", "#define z y##z\n#define yz z\nz");
         Check.comesOut("a", "#define f(p) p##p\n#define aa a\nf(a)");
@@ -371,6 +383,9 @@ public final class ExpandingEdgesTest {
         Check.stands("3", PASTE + "z(,\n1)");
         Check.stands("2 2", "#include <1>\nx", "\n\n#define x 1 2");
         Check.stands("1002 1002 3", "#define x 1 2\n#include <1>\ny", "\nx");
+        Check.stands("3", PASTE + "#define ab z(a,b)\nab");
+        Check.stands("3", PASTE + "#define ab z(a,b\nab\n)");
+        Check.stands("3 3 4", PASTE + "#define ab z(a,b c\nab\n)d");
     }
 
     /** "(a ## that came from an argument or by joining is a token like others)". */
@@ -393,6 +408,9 @@ public final class ExpandingEdgesTest {
         Check.counts(PhaseReader.ROOM, 0, 1, 1, "#define f(p) p;\nf(" + "+".repeat(40) + ")");
         Check.counts(PhaseReader.SYNTAX, 40, 1, 1, "#define f(p) p;\nf(" + "+".repeat(39) + ")");
         Check.counts(PhaseReader.ROOM, 0, 1, 1, "#define f(p) p p p p p p p p p p p p\nf(" + "+".repeat(40) + ")");
+        Check.counts(PhaseReader.ROOM, 0, 1, 1, "#define f(p) p p p p p p p p p p##p\nf(" + "1 ".repeat(40) + ")");
+        Check.counts(PhaseReader.ROOM, 0, 1, 1, "#define f(p) p##p p p p p p p p p p\nf(" + "1 ".repeat(40) + ")");
+        Check.counts(PhaseReader.ROOM, 0, 1, 1, "#define f(p) p##p##p##p##p##p\nf(" + "1 ".repeat(40) + ")");
         Check.counts(PhaseReader.SYNTAX, 40, 1, 1, "#define f(p) p p##1\nf(" + "1 ".repeat(20) + ")");
         Check.counts(PhaseReader.ROOM, 0, 1, 1, "#define f(p) p p 1\nf(" + "1 ".repeat(20) + ")");
         Check.counts(PhaseReader.ROOM, 0, 2, 2, TEN + "#define f(p) p p p p +\nf(t)");
@@ -418,11 +436,29 @@ public final class ExpandingEdgesTest {
         Check.comesOut("a ; a", "#define a a\na;a");
     }
 
+    /** The fullest hide set, of all 8 macros. */
+    private static void fullestHideSet() {
+        String chain = "#define a b\n#define b c\n#define c d\n#define d e\n#define e f\n#define f g\n#define g h\n";
+        Check.comesOut("a x", chain + "#define h a x\na");
+        Check.stands("9 9 10", chain + "#define h a x\na\ny");
+        Check.counts(PhaseReader.SYNTAX, 2, 8, 8, chain + "#define h a x\na");
+        Check.comesOut("b x", chain + "#define h a x\nb");
+        Check.comesOut("h x g x f x", chain + "#define h a x\nh g f");
+        Check.counts(PhaseReader.SYNTAX, 6, 24, 8, chain + "#define h a x\nh g f");
+        Check.counts(PhaseReader.ROOM, 0, 30, 8, chain + "#define h a x\nh g f e");
+        Check.comesOut("h ( ) x", "#define a b()\n#define b() c()\n#define c() d()\n#define d() e()\n#define e() f()\n#include <1>\nh()",
+            "#define f() g()\n#define g() h()\n#define h() a x\n");
+    }
+
     /** "(for a CALL macro: what the hide sets of T and of the closing ) have in common)". */
     private static void hideSetOfCallMacro() {
         Check.comesOut("f ( 1 )", "#define f(p) f(p)\nf(1)");
         Check.comesOut("1 1 h", "#define f() 1 h\n#define h() f\nf()()()");
         Check.comesOut("f", "#define f() h()\n#define h() f\nf()");
+        Check.comesOut("f ( 1 )", "#define f(p) p\nf(f)(1)");
+        Check.comesOut("f ( 1 )", "#define f(p) p f\nf()(1)");
+        Check.comesOut("f ( 1 )", "#define f(p) p##p\n#define ff f\nf(f)(1)");
+        Check.comesOut("1 ( 2 )", "#define f(p) p\n#define g(p) p\nf(g)(1)(2)");
         Check.comesOut("2 * 9 * g", "#define f(a) a*g\n#define g(a) f(a)\nf(2)(9)");
         Check.comesOut("f ( 1 )", "#define g f\n#define f(p) p g\nf()(1)");
         Check.comesOut("x", "#define x g(x\n#define g(p) p\nx)");

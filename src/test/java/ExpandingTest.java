@@ -86,8 +86,8 @@ public final class ExpandingTest {
         Check.comesOut("a ## b", "#define z(p) a p b\nz(##)");
         Check.comesOut("1 23 4", "#define z(p,q) p##q\nz(1 2,3 4)");
         Check.comesOut("abcdefghi", "#define z(p,q) p##q\nz(abcd,efghi)");
-        String[] faults = {"abcde,fghij", "+,+", "1,+", "+,1", "#,=", "=,#", "##,#", "#,##", "##,##", "==,=", "=,==", "-,1",
-            "/,/", "/,*", "a,(b)", "(a),b", "<,<", "&,&"};
+        String[] faults = {"abcde,fghij", "+,+", "1,+", "+,1", "#,=", "=,#", "##,#", "#,##", "##,##", "==,=", "=,==",
+            "-,1", "/,/", "/,*", "a,(b)", "(a),b", "<,<", "&,&"};
         for (String arguments : faults) {
             Check.verdict(PhaseReader.PASTE, "#define z(p,q) p##q\nz(" + arguments + ")");
         }

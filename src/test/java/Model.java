@@ -371,7 +371,8 @@ final class Model {
         return arguments;
     }
 
-    private static List<Token> replacement(Macro macro, List<List<Token>> arguments, List<List<Token>> expanded, int place) {
+    private static List<Token> replacement(Macro macro, List<List<Token>> arguments, List<List<Token>> expanded,
+        int place) {
         List<String> body = macro.body();
         List<Token> replacement = new ArrayList<>();
         for (int i = 0; i < body.size(); i++) {
@@ -385,7 +386,8 @@ final class Model {
         return replacement;
     }
 
-    private static List<Token> row(Macro macro, int i, List<List<Token>> arguments, List<List<Token>> expanded, int place) {
+    private static List<Token> row(Macro macro, int i, List<List<Token>> arguments, List<List<Token>> expanded,
+        int place) {
         List<String> body = macro.body();
         int parameter = macro.parameters().indexOf(body.get(i));
         if (parameter < 0) {

@@ -7,6 +7,7 @@ public final class OutcomeTest {
         latestTranslation();
         faultsLeaveNoTokens();
         nothingIsLeftBehind();
+        nothingIsSeenBehindTheEnd();
         nodeNumbers();
         everyCode();
         Check.end();
@@ -93,7 +94,33 @@ public final class OutcomeTest {
         after("int f(){int a;", "int f(){}", 0);
         after("#define f()\n;f(;", "int x;", 0);
         after("#define a +##+\na;", "int x;", 0);
+        after("int x;", "int", PhaseReader.SYNTAX);
+        after("#define a(p)", "#define a", 0);
+        after("#define a b## ##", "#define a b", 0);
+        after("#define a b##", "#define a", 0);
+        after("#ifdef a b", "#ifdef a", PhaseReader.CONDITION);
+        after("#include <1> 2", "#include <1>", 0);
+        after("#else x", "#", 0);
         after("#define f(p)\n#define g()\nf(x x g(1))", "#define f(p) p\nint x=f(f(1));", 0);
+    }
+
+    /** Nor must the end of a longer list be seen behind a shorter one, wherever that is cut off. */
+    private static void nothingIsSeenBehindTheEnd() {
+        String[] files = {"typedef int T,*U;int*(*f)()=(T*)&g[1](2,-x),y[3];T h(){T a=b;{;return a+1;}c();}",
+            "#define f(p,q) [p##q]\n#define x\n#ifdef x\nf(1,(2,3))f(,);\n#else\ny\n#endif\n#include <2>\n#undef x"};
+        for (String file : files) {
+            for (int end = 0; end < file.length(); end++) {
+                String beginning = file.substring(0, end);
+                Reader reader = Check.with(file, beginning);
+                reader.translate(0);
+                reader.translate(1);
+                Check.due("outcome of " + Check.name(beginning), Check.outcome(reader), new Model(file, beginning,
+                    "").outcome(1));
+                reader.translate(0);
+                Check.due("outcome of " + Check.name(file), Check.outcome(reader), new Model(file, beginning,
+                    "").outcome(0));
+            }
+        }
     }
 
     private static void after(String first, String second, int want) {

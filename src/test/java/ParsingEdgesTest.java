@@ -118,7 +118,8 @@ public final class ParsingEdgesTest {
             Check.verdict(PhaseReader.SYNTAX, "int *" + word + "();");
             Check.verdict(PhaseReader.SYNTAX, "int x=" + word + ";");
             Check.verdict(PhaseReader.SYNTAX, "typedef int " + word + ";");
-            for (String name : new String[] {word + "s", "_" + word, word.toUpperCase(), word.substring(1), word.substring(0, 2), word + "1"}) {
+            for (String name : new String[] {word + "s", "_" + word, word.toUpperCase(), word.substring(1),
+                word.substring(0, 2), word + "1"}) {
                 Check.verdict(0, "int " + name + "=" + name + ";");
             }
         }
@@ -192,7 +193,8 @@ public final class ParsingEdgesTest {
         Check.verdict(0, "int x;");
         Check.verdict(0, "int f(){}");
         Check.verdict(0, "int x;int f(){}int y;");
-        for (String none : new String[] {";", "x;", "1;", "{}", "return;", "x=1;", "f(){}", "x", "*x;", "(x);", "}", "int x;;", "int f(){};"}) {
+        for (String none : new String[] {";", "x;", "1;", "{}", "return;", "x=1;", "f(){}", "x", "*x;", "(x);", "}",
+            "int x;;", "int f(){};"}) {
             Check.verdict(PhaseReader.SYNTAX, none);
         }
     }
@@ -208,8 +210,8 @@ public final class ParsingEdgesTest {
                 Check.verdict(0, TYPE + type + " " + right);
                 Check.verdict(PhaseReader.SYNTAX, TYPE + "typedef " + type + " " + right);
             }
-            for (String wrong : new String[] {"", ";", "x", ",;", "x,;", ",x;", "x y;", "x,,y;", "x=;", "x=1", "x==1;", "x=1=;", "=1;",
-                "x=1,;", "x(1);", "int x;", "typedef x;", "x={};", "x,y"}) {
+            for (String wrong : new String[] {"", ";", "x", ",;", "x,;", ",x;", "x y;", "x,,y;", "x=;", "x=1", "x==1;",
+                "x=1=;", "=1;", "x=1,;", "x(1);", "int x;", "typedef x;", "x={};", "x,y"}) {
                 Check.verdict(PhaseReader.SYNTAX, TYPE + type + " " + wrong);
                 Check.verdict(PhaseReader.SYNTAX, TYPE + "typedef " + type + " " + wrong);
             }
@@ -221,7 +223,8 @@ public final class ParsingEdgesTest {
 
     /** "definition: type d block, d having FUNCTION as its first form." */
     private static void firstFormOfDefinitions() {
-        for (String d : new String[] {"f()", "*f()", "**f()", "(f)()", "(f())", "*(f)()", "(*f())()", "f()[1]", "f()()", "(*f())[1]", "(*(f)())()"}) {
+        for (String d : new String[] {"f()", "*f()", "**f()", "(f)()", "(f())", "*(f)()", "(*f())()", "f()[1]", "f()()",
+            "(*f())[1]", "(*(f)())()"}) {
             Check.verdict(0, "int " + d + "{}");
             Check.verdict(0, "int " + d + ";");
             Check.verdict(PhaseReader.SYNTAX, "int " + d + "{};");
@@ -231,31 +234,36 @@ public final class ParsingEdgesTest {
             Check.verdict(PhaseReader.SYNTAX, "int " + d + "=1{}");
             Check.verdict(PhaseReader.SYNTAX, "int g(){int " + d + "{}}");
         }
-        for (String d : new String[] {"f", "*f", "f[1]", "f[1]()", "(*f)()", "*(*f)()", "(*f)[1]", "(f)", "(f[1])()", "((*f))()"}) {
+        for (String d : new String[] {"f", "*f", "f[1]", "f[1]()", "(*f)()", "*(*f)()", "(*f)[1]", "(f)", "(f[1])()",
+            "((*f))()"}) {
             Check.verdict(PhaseReader.SYNTAX, "int " + d + "{}");
         }
     }
 
     /** "d: {*} (N or "(" d ")") and then any of "[" NUMBER "]" and "(" ")"." */
     private static void declarators() {
-        for (String right : new String[] {"x", "*x", "***x", "(x)", "((x))", "*(*(*x))", "x[1]", "x[1][2]", "x()", "x()()", "x()[1]()", "(x[1])", "(x)[1]",
-            "*(x)()", "(*x())[1]", "x[0]", "x[999999999]", "T", "(T)", "*T[1]"}) {
+        for (String right : new String[] {"x", "*x", "***x", "(x)", "((x))", "*(*(*x))", "x[1]", "x[1][2]", "x()",
+            "x()()", "x()[1]()", "(x[1])", "(x)[1]", "*(x)()", "(*x())[1]", "x[0]", "x[999999999]", "T", "(T)",
+            "*T[1]"}) {
             Check.verdict(0, TYPE + "int " + right + ";");
         }
-        for (String wrong : new String[] {"*", "()", "(x", "x)", "((x)", "(*)", "x[]", "x[y]", "x[1", "x 1]", "x[1,2]", "x[-1]", "x[(1)]", "x(", "x(1)",
-            "x(y)", "x(int)", "x(,)", "x[1+1]", "[1]x", "()x", "x*", "(x)*", "(x)y", "&x", "-x", "x{}", "1", "(1)", "x[T]"}) {
+        for (String wrong : new String[] {"*", "()", "(x", "x)", "((x)", "(*)", "x[]", "x[y]", "x[1", "x 1]", "x[1,2]",
+            "x[-1]", "x[(1)]", "x(", "x(1)", "x(y)", "x(int)", "x(,)", "x[1+1]", "[1]x", "()x", "x*", "(x)*", "(x)y",
+            "&x", "-x", "x{}", "1", "(1)", "x[T]"}) {
             Check.verdict(PhaseReader.SYNTAX, TYPE + "int " + wrong + ";");
         }
     }
 
     /** "block: "{" items "}" .. statement: block, ;   e ;   return ;   return e ;". */
     private static void blocks() {
-        for (String right : new String[] {"", ";", ";;", "{}", "{}{}", "{{}}", "x;", "1;", "return;", "return x;", "return(x);", "int x;", "T x;", "T x;x;",
-            "x;T y;", "typedef T U;U x;", "return;int x;", "{;}x;", "f();", "return return1;"}) {
+        for (String right : new String[] {"", ";", ";;", "{}", "{}{}", "{{}}", "x;", "1;", "return;", "return x;",
+            "return(x);", "int x;", "T x;", "T x;x;", "x;T y;", "typedef T U;U x;", "return;int x;", "{;}x;", "f();",
+            "return return1;"}) {
             Check.verdict(0, TYPE + "int f(){" + right + "}");
         }
-        for (String wrong : new String[] {"x", "return", "return x", "return,;", "x,y;", "{", "}", "{;", "T;", "T=1;", "return T;", "int;", "return int;",
-            "return {};", "return return;", "else x;;", "x;y", "int f(){}", "#", "##;", "x y;", "{};x"}) {
+        for (String wrong : new String[] {"x", "return", "return x", "return,;", "x,y;", "{", "}", "{;", "T;", "T=1;",
+            "return T;", "int;", "return int;", "return {};", "return return;", "else x;;", "x;y", "int f(){}", "#",
+            "##;", "x y;", "{};x"}) {
             Check.verdict(PhaseReader.SYNTAX, TYPE + "int f(){" + wrong + "}");
         }
         Check.verdict(PhaseReader.SYNTAX, "int f(){");
@@ -270,7 +278,8 @@ public final class ParsingEdgesTest {
         for (int left = 0; left < operators.length; left++) {
             for (int right = 0; right < operators.length; right++) {
                 boolean first = strengths[left] > strengths[right] || strengths[left] == strengths[right] && left > 0;
-                Check.grows(first ? "0:-1[1:0[3:0 4:1[12:6[12:4[17:3 17:5] 17:7]]]]" : "0:-1[1:0[3:0 4:1[12:4[17:3 12:6[17:5 17:7]]]]]",
+                Check.grows(first ? "0:-1[1:0[3:0 4:1[12:6[12:4[17:3 17:5] 17:7]]]]"
+                    : "0:-1[1:0[3:0 4:1[12:4[17:3 12:6[17:5 17:7]]]]]",
                     "int x=a" + operators[left] + "b" + operators[right] + "c;");
             }
         }
@@ -281,13 +290,15 @@ public final class ParsingEdgesTest {
 
     /** "operand: any of - * & and casts .., then a NAME .., a NUMBER, or "(" e ")", and then any of "[" e "]" and "(" [e {, e}] ")"". */
     private static void operands() {
-        for (String right : new String[] {"a", "1", "(a)", "-a", "*a", "&a", "--a", "-*&-a", "a[1]", "a[b=1]", "a()", "a(1)", "a(1,2)", "a(1,b=2,c)", "a()()",
-            "a[1]()[2]", "1()", "1[1]", "(a)()", "(a)[1]", "-a()", "((a))", "(T)a", "(T*)a", "(T**)-a[1]", "(T)(T)a", "-(T)a", "(T)(a)", "a((T)1)"}) {
+        for (String right : new String[] {"a", "1", "(a)", "-a", "*a", "&a", "--a", "-*&-a", "a[1]", "a[b=1]", "a()",
+            "a(1)", "a(1,2)", "a(1,b=2,c)", "a()()", "a[1]()[2]", "1()", "1[1]", "(a)()", "(a)[1]", "-a()", "((a))",
+            "(T)a", "(T*)a", "(T**)-a[1]", "(T)(T)a", "-(T)a", "(T)(a)", "a((T)1)"}) {
             Check.verdict(0, TYPE + "int x=" + right + ";");
         }
-        for (String wrong : new String[] {"", "-", "()", "(a", "a)", "a[]", "a[1", "a(1", "a(,)", "a(1,)", "a(,1)", "a[1,2]", "(a,b)", "+a", "a+", "/a", "<a", "a b",
-            "1 1", "T", "-T", "(T)", "(T", "(T*", "(T*)", "(*T)a", "T(a)", "a(T)", "a[T]", "(T)a b", "(T a)", "(T[1])a", "(T())a", "(T)=a", "((T))a",
-            "a{}", "{1}", "a==", "==a", "a&b", "a-+b", "a;b"}) {
+        for (String wrong : new String[] {"", "-", "()", "(a", "a)", "a[]", "a[1", "a(1", "a(,)", "a(1,)", "a(,1)",
+            "a[1,2]", "(a,b)", "+a", "a+", "/a", "<a", "a b", "1 1", "T", "-T", "(T)", "(T", "(T*", "(T*)", "(*T)a",
+            "T(a)", "a(T)", "a[T]", "(T)a b", "(T a)", "(T[1])a", "(T())a", "(T)=a", "((T))a", "a{}", "{1}", "a==",
+            "==a", "a&b", "a-+b", "a;b"}) {
             Check.verdict(PhaseReader.SYNTAX, TYPE + "int x=" + wrong + ";");
         }
     }
@@ -315,10 +326,14 @@ public final class ParsingEdgesTest {
     /** The fullest list, of 100 tokens, in every shape that a node can take many times. */
     private static void largestTrees() {
         Check.counts(0, 100, 0, 0, "int " + "*".repeat(97) + "x;");
-        for (String file : new String[] {"int " + "*".repeat(97) + "x;", "int x=" + "-".repeat(95) + "1;", "int x" + ",x".repeat(48) + ";",
-            "int x=1" + "+1".repeat(47) + ";", "int x=a" + "=1".repeat(47) + ";", "int x=a" + "()".repeat(47) + ";", "int x" + "()".repeat(48) + ";",
-            "int x=a(1" + ",1".repeat(46) + ");", "int f(){" + ";".repeat(94) + "}", "int f(){" + "{}".repeat(47) + "}", "int x=a" + "[1]".repeat(31) + ";",
-            "int x" + "[1]".repeat(32) + ";", "int x=(int" + "*".repeat(91) + ")1;", "int x=" + "*&-".repeat(31) + "1;"}) {
+        for (String file : new String[] {"int " + "*".repeat(97) + "x;", "int x=" + "-".repeat(95) + "1;", "int x"
+            + ",x".repeat(48) + ";",
+            "int x=1" + "+1".repeat(47) + ";", "int x=a" + "=1".repeat(47) + ";", "int x=a" + "()".repeat(47) + ";",
+                "int x" + "()".repeat(48) + ";",
+            "int x=a(1" + ",1".repeat(46) + ");", "int f(){" + ";".repeat(94) + "}", "int f(){" + "{}".repeat(47) + "}",
+                "int x=a" + "[1]".repeat(31) + ";", "int x" + "[1]".repeat(32) + ";", "int x=(int" + "*".repeat(91)
+                + ")1;", "int x=" + "*&-".repeat(31)
+                + "1;"}) {
             Reader reader = Check.translated(file);
             Check.due("tokens of " + file, reader.tokens() > 95, true);
             Check.due("outcome of " + file, Check.outcome(reader), new Model(file, "", "").outcome(0));
@@ -329,14 +344,16 @@ public final class ParsingEdgesTest {
         Check.due("last node", reader.node(100, 0) + " " + reader.node(100, 1) + " " + reader.node(100, 2), "7 1 0");
         Check.due("children of the declarator", reader.node(3, 2), 97);
         Check.due("node behind the last", reader.node(101, 0), -2);
-        Check.due("short declarations", Check.translated("#define a int x;int x;int x;int x;\na a a a a a a a\nint x;").nodes(), 1 + 33 * 3);
+        Check.due("short declarations",
+            Check.translated("#define a int x;int x;int x;int x;\na a a a a a a a\nint x;").nodes(), 1 + 33 * 3);
     }
 
     /** The deepest nesting, of 6 brackets, in every kind of them. */
     private static void deepestTrees() {
-        for (String file : new String[] {"int x=((((((1+2)*3)-4)+5)/6)<7);", "int *(*(*(*(*(*(*x)())[1])())[2])())[3];", "int f(){{{{{{return 1;}}}}}}",
-            "int f(){{{{{int x=(1);}}}}}", "int x=a(b[c(d[e(f[1])])]);", "int f(){{{a((int)(1),b[1]);}}}", "int f(){{{{{typedef int T;T(*x)();}}}}}",
-            "int x=-(-(-(-(-(-(1))))));", "int f(){{{{{{;}{;}}{;}}}}}"}) {
+        for (String file : new String[] {"int x=((((((1+2)*3)-4)+5)/6)<7);", "int *(*(*(*(*(*(*x)())[1])())[2])())[3];",
+            "int f(){{{{{{return 1;}}}}}}", "int f(){{{{{int x=(1);}}}}}", "int x=a(b[c(d[e(f[1])])]);",
+            "int f(){{{a((int)(1),b[1]);}}}", "int f(){{{{{typedef int T;T(*x)();}}}}}", "int x=-(-(-(-(-(-(1))))));",
+            "int f(){{{{{{;}{;}}{;}}}}}"}) {
             Reader reader = Check.translated(file);
             Check.due("outcome of " + file, Check.outcome(reader), new Model(file, "", "").outcome(0));
             Check.due("verdict of " + file, reader.verdict(), 0);

@@ -123,8 +123,8 @@ public final class ParsingTest {
         Check.grows(body("10:13[15:10[16:8[16:6[17:5]] 18:11]]"), "int f(){a()()[1];}");
         Check.grows(body("10:9[16:6[18:5 18:7]]"), "int f(){1(2);}");
         Check.grows(body("10:12[15:6[17:5 15:8[17:7 18:9]]]"), "int f(){a[b[1]];}");
-        String[] faults = {"a[]", "a[1", "a(1", "a(,)", "a(1,)", "()", "-", "a+", "+a", "a b", "(a", "a)", "a[1,2]", "/a",
-            "a==", "==a", "a<=b", "#", "a##b", "(a,b)", "int", "a(int)", "return"};
+        String[] faults = {"a[]", "a[1", "a(1", "a(,)", "a(1,)", "()", "-", "a+", "+a", "a b", "(a", "a)", "a[1,2]",
+            "/a", "a==", "==a", "a<=b", "#", "a##b", "(a,b)", "int", "a(int)", "return"};
         for (String e : faults) {
             Check.verdict(PhaseReader.SYNTAX, "int f(){1+" + e + ";}");
         }
@@ -136,7 +136,8 @@ public final class ParsingTest {
         Check.grows(body("10:15[12:13[14:5[3:6 13:8[15:10[17:9 18:11]]] 17:14]]"), "int f(){(int)-a[1]+b;}");
         Check.grows(body("10:12[14:5[3:6 14:8[3:9 17:11]]]"), "int f(){(int)(int)a;}");
         Check.grows(body("10:11[14:5[3:6 17:9]]"), "int f(){(int)(a);}");
-        String[] faults = {"(int)", "(int", "(int a)b", "(*int)a", "(int*", "(int[1])a", "(typedef)a", "(int)=a", "((int))a"};
+        String[] faults = {"(int)", "(int", "(int a)b", "(*int)a", "(int*", "(int[1])a", "(typedef)a", "(int)=a",
+            "((int))a"};
         for (String e : faults) {
             Check.verdict(PhaseReader.SYNTAX, "int f(){" + e + ";}");
         }
@@ -151,29 +152,31 @@ public final class ParsingTest {
         Check.grows("0:-1[2:0[3:1 4:2] 1:4[3:4 4:5[14:7[3:8 17:10]]]]", head + "int y=(T)z;");
         Check.grows("0:-1[2:0[3:1 4:2] 1:4[3:4 4:5[14:7[3:8 13:10[17:11]]]]]", head + "int y=(T)-z;");
         Check.grows("0:-1[1:0[3:0 4:1[12:6[17:4 17:7]]]]", "int y=(T)-z;");
-        String[] units = {"T T;", "int T;int x=T;", "int T,x=T;", "int T=T;", "int (T);", "typedef T T;T x;", "typedef char T;T x;",
-            "T f(){T T=T;T;}", "int f(){{int T;T=1;}T x;}", "int f(){int T;{typedef char T;T x;}T=1;}",
-            "int f(){int T;typedef int T;T x;}", "int T(){return T();}", "int f(){int x=(T)1,T=(T);}",
-            "int f(){T x,T;T;}", "typedef T U;U x;", "int f(){typedef T*U;U x;return (U)x;}", "T*x,T;int y=T;",
-            "int f(){int T;}T x;", "T(f)(){return(T)f;}", "typedef T*(*P)();P p;"};
+        String[] units = {"T T;", "int T;int x=T;", "int T,x=T;", "int T=T;", "int (T);", "typedef T T;T x;",
+            "typedef char T;T x;", "T f(){T T=T;T;}", "int f(){{int T;T=1;}T x;}",
+            "int f(){int T;{typedef char T;T x;}T=1;}", "int f(){int T;typedef int T;T x;}", "int T(){return T();}",
+            "int f(){int x=(T)1,T=(T);}", "int f(){T x,T;T;}", "typedef T U;U x;",
+            "int f(){typedef T*U;U x;return (U)x;}", "T*x,T;int y=T;", "int f(){int T;}T x;", "T(f)(){return(T)f;}",
+            "typedef T*(*P)();P p;"};
         for (String unit : units) {
             Check.verdict(0, head + unit);
         }
-        String[] faults = {"int x=T;", "int T;T x;", "int f(){int T;T x;}", "int f(){T;}", "int f(){T=1;}", "int T(){T x;}",
-            "int f(){int T=(T)1;}", "int f(){return T;}", "int f(){return T(x);}", "int f(){{typedef int U;}U x;}",
-            "int f(){typedef int U;}U x;", "U x;typedef int U;", "int f(){(T);}", "int f(){x(T);}", "int f(){x=(T+1);}",
-            "int T,x=(T)1;", "typedef int T int;", "T;", "T T x;", "int x[T];", "int f(){T x,T,y=(T)1;}"};
+        String[] faults = {"int x=T;", "int T;T x;", "int f(){int T;T x;}", "int f(){T;}", "int f(){T=1;}",
+            "int T(){T x;}", "int f(){int T=(T)1;}", "int f(){return T;}", "int f(){return T(x);}",
+            "int f(){{typedef int U;}U x;}", "int f(){typedef int U;}U x;", "U x;typedef int U;", "int f(){(T);}",
+            "int f(){x(T);}", "int f(){x=(T+1);}", "int T,x=(T)1;", "typedef int T int;", "T;", "T T x;", "int x[T];",
+            "int f(){T x,T,y=(T)1;}"};
         for (String unit : faults) {
             Check.verdict(PhaseReader.SYNTAX, head + unit);
         }
     }
 
     private static void noUnits() {
-        String[] faults = {"x", "int", "int x", "int x,", "int x,;", "int =1;", "int x=;", "int x=1", "int 1;", "int *;", "int ();",
-            "int (x;", "int x[];", "int x[y];", "int x[1;", "int x(1);", "int x(y);", "int int;", "int return;", "int char x;",
-            "typedef;", "typedef int;", "typedef x y;", "typedef int x", "int x[1+1];", "int x=1 y;", "int x==1;", "int (x)y;",
-            "int x]", "##", ")", "int (*)();", "int &x;", "int x=1;}", "int x*;",
-            "int f(;", "int x=f(;", "int x=f(1,;", "int x=f(1;", "int x=(int;", "int x[;"};
+        String[] faults = {"x", "int", "int x", "int x,", "int x,;", "int =1;", "int x=;", "int x=1", "int 1;",
+            "int *;", "int ();", "int (x;", "int x[];", "int x[y];", "int x[1;", "int x(1);", "int x(y);", "int int;",
+            "int return;", "int char x;", "typedef;", "typedef int;", "typedef x y;", "typedef int x", "int x[1+1];",
+            "int x=1 y;", "int x==1;", "int (x)y;", "int x]", "##", ")", "int (*)();", "int &x;", "int x=1;}",
+            "int x*;", "int f(;", "int x=f(;", "int x=f(1,;", "int x=f(1;", "int x=(int;", "int x[;"};
         for (String file : faults) {
             Check.verdict(PhaseReader.SYNTAX, file);
         }

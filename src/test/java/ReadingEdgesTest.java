@@ -228,7 +228,8 @@ public final class ReadingEdgesTest {
             if (isWord(c)) {
                 boolean isDigit = c >= '0' && c <= '9';
                 Reader reader = Check.with("1" + c + "2");
-                Check.due("translate of 1" + c + "2", reader.translate(0), isDigit ? PhaseReader.SYNTAX : PhaseReader.NUMBER);
+                Check.due("translate of 1" + c + "2", reader.translate(0), isDigit ? PhaseReader.SYNTAX
+                    : PhaseReader.NUMBER);
                 Check.due("words of 1" + c + "2", Check.words(reader), "1" + c + "2");
             } else if (!isToken && c != ' ') {
                 Check.verdict(PhaseReader.CHARACTER, "a" + c);
@@ -265,20 +266,22 @@ public final class ReadingEdgesTest {
 
     /** The same, wherever such a token stands, but in a comment. */
     private static void tooLongTokens() {
-        for (String file : new String[] {"#define abcdefghij", "#ifdef A\nabcdefghij\n#endif", "#abcdefghij", "abcde\\\nfghij",
-            "int x;\nabcdefghij", "abcdefgh_9", "1abcdefghi", "#define a(abcdefghij)"}) {
+        for (String file : new String[] {"#define abcdefghij", "#ifdef A\nabcdefghij\n#endif", "#abcdefghij",
+            "abcde\\\nfghij", "int x;\nabcdefghij", "abcdefgh_9", "1abcdefghi", "#define a(abcdefghij)"}) {
             Check.verdict(PhaseReader.CHARACTER, file);
         }
-        for (String file : new String[] {"#define abcdefghi", "#ifdef A\nabcdefghi\n#endif", "//abcdefghij", "/*abcdefghij*/",
-            "#define a(abcdefghi)", "#undef abcde/**/\n//fghij"}) {
+        for (String file : new String[] {"#define abcdefghi", "#ifdef A\nabcdefghi\n#endif", "//abcdefghij",
+            "/*abcdefghij*/", "#define a(abcdefghi)", "#undef abcde/**/\n//fghij"}) {
             Check.verdict(0, file);
         }
     }
 
     /** "for a comment without an end: COMMENT". */
     private static void commentsWithoutEnd() {
-        for (String file : new String[] {"/*", "/*/", "/**", "/* *", "/* * /", "a/*", "/**//*", "/*\n", "/*//\n", "/\\\n*",
-            "/*\n*\n/", "#ifdef A\n/*\n#endif", "#define a /*", "/*" + "*".repeat(FULL - 2), " ".repeat(FULL - 2) + "/*",
+        for (String file : new String[] {"/*", "/*/", "/**", "/* *", "/* * /", "a/*", "/**//*", "/*\n", "/*//\n",
+            "/\\\n*", "/*\n*\n/", "#ifdef A\n/*\n#endif", "#define a /*", "/*" + "*".repeat(FULL - 2),
+            " ".repeat(FULL - 2)
+                + "/*",
             "/*" + " ".repeat(FULL - 3) + "*", "/*??/\n*\\", "//\n/*"}) {
             Check.verdict(PhaseReader.COMMENT, file);
         }

@@ -5,21 +5,23 @@ final class Texts {
     private static final String[] PIECES = {"int ", "char ", "typedef ", "return ", "T", "f", "x", "1", "22", "(", ")",
         "(", ")", "[", "]", "{", "}", ";", ";", ",", "=", "==", "+", "-", "*", "/", "&", "<", ">", "#", "##", " ", "\n",
         "\n", "\n#define f(p) ", "\n#define x ", "\n#define T(p,q,r) ", "\n#define g() ", "p", "q##p", "f(", "g(", "T(",
-        "\n#undef x\n", "\n#ifdef x\n", "\n#ifndef f\n", "\n#else\n", "\n#endif\n", "\n#include <1>\n", "\n#include <2>\n",
-        "/*", "*/", "//", "\\\n", "??=", "??/", "??(", "??)", "??<", "??>", "??", "$", "abcdefghij", "f(x)", "f(f(", "))"};
-    private static final String[] LINES = {"#define A", "#define B 1", "#define A(p) p", "#define B(p,q) q##p", "#undef A",
-        "#undef B", "#ifdef A", "#ifdef B", "#ifndef A", "#ifndef B", "#else", "#else", "#endif", "#endif", "#endif", "#",
-        "#else x", "#endif x", "#ifdef", "#include <0>", "#include <1>", "#include <2>", "#define", "A B", "A(1)", "B(1,2)",
-        "A", "(x)", "x\\", "/*", "*/", "//\\", "??=ifdef A", "??=endif", "#define C(p p"};
-    private static final String[] HEADS = {"a ", "b ", "c ", "f(p) ", "g(p,q) ", "h(p,q,r) ", "k() "};
-    private static final String[] WORDS = {"a", "b", "c", "f", "g", "h", "k", "p", "q", "r", "p", "q", "1", "2", "=", "#",
-        "(", ")", ",", "xy", "abcdefgh"};
-    private static final String[] USES = {"a", "b", "c", "1", "2", "=", "#", "##", "xy", "abcde", "", "(", ")", ",", "\n", "f"};
+        "\n#undef x\n", "\n#ifdef x\n", "\n#ifndef f\n", "\n#else\n", "\n#endif\n", "\n#include <1>\n",
+        "\n#include <2>\n", "/*", "*/", "//", "\\\n", "??=", "??/", "??(", "??)", "??<", "??>", "??", "$", "abcdefghij",
+        "f(x)", "f(f(", "))"};
+    private static final String[] LINES = {"#define A", "#define B 1", "#define A(p) p", "#define B(p,q) q##p",
+        "#undef A", "#undef B", "#ifdef A", "#ifdef B", "#ifndef A", "#ifndef B", "#else", "#else", "#endif", "#endif",
+        "#endif", "#", "#else x", "#endif x", "#ifdef", "#include <0>", "#include <1>", "#include <2>", "#define",
+        "A B", "A(1)", "B(1,2)", "A", "(x)", "x\\", "/*", "*/", "//\\", "??=ifdef A", "??=endif", "#define C(p p"};
+    private static final String[] HEADS = {"a ", "b ", "ab ", "f(p) ", "g(p,q) ", "h(p,q,r) ", "k() "};
+    private static final String[] WORDS = {"a", "b", "ab", "f", "g", "h", "k", "p", "q", "r", "p", "q", "1", "2", "=",
+        "#", "(", ")", ",", "xy", "abcdefgh"};
+    private static final String[] USES = {"a", "b", "ab", "1", "2", "=", "#", "##", "xy", "abcde", "", "(", ")", ",",
+        "\n", "f"};
     private static final String[] TYPES = {"int", "char", "T", "U", "T", "int"};
     private static final String[] NAMES = {"x", "y", "T", "U", "f"};
     private static final String[] OPERATORS = {"=", "==", "<", ">", "+", "-", "*", "/"};
-    private static final String[] BROKEN = {";", ",", "(", ")", "{", "}", "[", "]", "=", "*", "int", "T", "1", "1x", "typedef",
-        "return", "#", ""};
+    private static final String[] BROKEN = {";", ",", "(", ")", "{", "}", "[", "]", "=", "*", "int", "T", "1", "1x",
+        "typedef", "return", "#", ""};
 
     private final Random random;
 
@@ -178,12 +180,14 @@ final class Texts {
     private String operand(int depth) {
         StringBuilder text = new StringBuilder();
         for (int more = below(3) - 1; more > 0; more--) {
-            text.append(below(3) == 0 ? "(" + oneOf(TYPES) + "*".repeat(below(2)) + ")" : String.valueOf("-*&".charAt(below(3))));
+            text.append(below(3) == 0 ? "(" + oneOf(TYPES) + "*".repeat(below(2)) + ")"
+                : String.valueOf("-*&".charAt(below(3))));
         }
         boolean inside = depth > 0 && below(3) == 0;
         text.append(inside ? "(" + expression(depth - 1) + ")" : below(2) == 0 ? "1" : oneOf(NAMES));
         if (depth > 0 && below(4) == 0) {
-            text.append(below(2) == 0 ? "[" + expression(depth - 1) + "]" : "(" + (below(2) == 0 ? "" : expression(depth - 1)) + ")");
+            text.append(below(2) == 0 ? "[" + expression(depth - 1) + "]" : "(" + (below(2) == 0 ? ""
+                : expression(depth - 1)) + ")");
         }
         return text.toString();
     }
