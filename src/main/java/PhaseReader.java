@@ -1175,8 +1175,11 @@ public final class PhaseReader {
                     tree.children[start]++;
                     return isFunction(declarator) && takeBlock(depth + 1);
                 }
-                if (!isTypedef && !takeInitializer(declarator, depth)) {
-                    return false;
+                if (!isTypedef && take('=')) {
+                    tree.children[declarator]++;
+                    if (!takeExpression(depth + 1)) {
+                        return false;
+                    }
                 }
                 if (!take(',')) {
                     return take(';');
@@ -1207,14 +1210,6 @@ public final class PhaseReader {
         private boolean isFunction(int declarator) {
             int first = declarator + 1;
             return tree.children[declarator] > 0 && tree.kind[first] == Tree.FUNCTION;
-        }
-
-        private boolean takeInitializer(int declarator, int depth) {
-            if (!take('=')) {
-                return true;
-            }
-            tree.children[declarator]++;
-            return takeExpression(depth + 1);
         }
 
         private boolean takeDeclarator(int depth) {

@@ -6,6 +6,7 @@ public final class DirectivesEdgesTest {
     private static final String CALL = "#define f(p) <p>\n";
 
     public static void main(String[] args) {
+        readBeforeItsLines();
         firstTokenOfALine();
         groups();
         tokensOut();
@@ -41,6 +42,17 @@ public final class DirectivesEdgesTest {
         includesDone();
         nextLineBehindInclude();
         Check.end();
+    }
+
+    /** "After a file was read, its lines are gone through." */
+    private static void readBeforeItsLines() {
+        for (String line : new String[] {"#x", "#endif", "#define a\n#define a", "#define f()\nf(", "#include <0>",
+            "#define a +##+\na", ";".repeat(101), "#include <1>", "1x", "((((((("}) {
+            Check.counts(PhaseReader.CHARACTER, 0, 0, 0, line + "\n$", "/*");
+            Check.counts(PhaseReader.COMMENT, 0, 0, 0, line + "\n/*", "$");
+        }
+        Check.counts(PhaseReader.CHARACTER, 0, 1, 1, "#define a\na\n#include <1>\n#x", "#define b\na\n$");
+        Check.counts(PhaseReader.DIRECTIVE, 0, 1, 1, "#define a\na\n#x\n#include <1>", "#define b\na\n$");
     }
 
     /** "A line whose first token is # is a directive; all others are text." */
@@ -384,6 +396,7 @@ public final class DirectivesEdgesTest {
         Check.verdict(PhaseReader.CONDITION, "#include <1>\n#endif", "#ifndef A\n#endif");
         Check.comesOut("x y", "#ifndef A\n#include <1>\n#else\nz\n#endif\ny", "#ifdef A\n#else\nx\n#endif");
         Check.comesOut("x x", "#ifndef A\n#define A\n#include <0>\n#endif\nx");
+        Check.counts(PhaseReader.CONDITION, 0, 0, 1, "#ifndef A\n#define A\n#include <0>\n#endif\n#endif\n#define B");
     }
 
     /** "a second else". */
@@ -512,6 +525,8 @@ public final class DirectivesEdgesTest {
         Check.counts(PhaseReader.SYNTAX, 8, 0, 0, line.repeat(2), "#include <2>\n".repeat(4), "x");
         Check.counts(PhaseReader.NESTING, 0, 0, 0, line.repeat(2), "#include <2>\n".repeat(5), "x");
         Check.counts(PhaseReader.SYNTAX, 10, 0, 0, "#ifdef A\n" + line + "#endif\n" + line.repeat(10), "x");
+        Check.counts(PhaseReader.SYNTAX, 10, 0, 0, "#include <2>\n".repeat(8) + line, "#include <2>\nx", "x");
+        Check.counts(PhaseReader.NESTING, 0, 0, 0, "#include <2>\n".repeat(9) + line, "#include <2>\nx", "x");
         Check.verdict(PhaseReader.DIRECTIVE, line.repeat(10) + "#include <3>", "x");
         Check.verdict(PhaseReader.CHARACTER, line.repeat(10), "$");
         Reader reader = Check.with(line.repeat(11), "x", "#include <1>");

@@ -4,6 +4,8 @@ public final class ExpandingEdgesTest {
     private static final String TEN = "#define t 1 2 3 4 5 6 7 8 9 0\n";
 
     public static void main(String[] args) {
+        emptyHideSets();
+        fromTheLeft();
         namesOfMacros();
         callMacroBehindItsName();
         numbersOfArguments();
@@ -36,6 +38,26 @@ public final class ExpandingEdgesTest {
         hideSetOfCallMacro();
         firstTokenOfReplacement();
         Check.end();
+    }
+
+    /** "Each token has a HIDE set of macros, empty for what comes from a file." */
+    private static void emptyHideSets() {
+        Check.counts(PhaseReader.SYNTAX, 3, 3, 1, "#define a a\na a a");
+        Check.counts(PhaseReader.SYNTAX, 2, 2, 1, "#define a a\na\n#\na");
+        Check.counts(PhaseReader.SYNTAX, 2, 2, 1, "#define a a\na\n#include <1>", "a");
+        Check.counts(PhaseReader.SYNTAX, 8, 2, 1, "#define f(p) f(p)\nf(f(1))f");
+        Check.comesOut("f ( f ( 1 ) ) f", "#define f(p) f(p)\nf(f(1))f");
+    }
+
+    /** "From the left": what stands further left is replaced, or goes wrong, before what stands behind it. */
+    private static void fromTheLeft() {
+        String head = "#define a 1\n#define f() 2\n#define z +##+\n";
+        Check.counts(PhaseReader.PASTE, 0, 1, 3, head + "z f(");
+        Check.counts(PhaseReader.CALL, 0, 0, 3, head + "f( z");
+        Check.counts(PhaseReader.CALL, 0, 0, 3, head + "f(z) z");
+        Check.counts(PhaseReader.PASTE, 0, 3, 3, head + "a f() z a f(");
+        Check.counts(PhaseReader.CALL, 0, 2, 3, head + "a f() f( z a");
+        Check.counts(PhaseReader.PASTE, 0, 2, 3, head + "a\n#\nz\n#x\nf(");
     }
 
     /** "a token T that is the name of a macro that is not in its hide set .. any other token comes out". */
@@ -73,16 +95,17 @@ public final class ExpandingEdgesTest {
         for (int parameters = 0; parameters < heads.length; parameters++) {
             for (int arguments = 1; arguments <= 6; arguments++) {
                 boolean fits = arguments == parameters;
-                String call = "f(1" + ",1".repeat(arguments - 1) + ")";
-                Check.counts(fits ? PhaseReader.SYNTAX : PhaseReader.CALL, fits ? 1 : 0, fits ? 1 : 0, 1,
-                    "#define " + heads[parameters] + " x\n" + call);
-                String empty = "f(" + ",".repeat(arguments - 1) + ")";
                 boolean none = arguments == 1 && parameters == 0;
-                Check.counts(fits || none ? PhaseReader.SYNTAX : PhaseReader.CALL, fits || none ? 1 : 0, fits || none
-                    ? 1 : 0, 1,
-                    "#define " + heads[parameters] + " x\n" + empty);
+                String define = "#define " + heads[parameters] + " x\n";
+                numberOfArguments(fits, define + "f(1" + ",1".repeat(arguments - 1) + ")");
+                numberOfArguments(fits || none, define + "f(" + ",".repeat(arguments - 1) + ")");
             }
         }
+    }
+
+    private static void numberOfArguments(boolean fits, String file) {
+        int one = fits ? 1 : 0;
+        Check.counts(fits ? PhaseReader.SYNTAX : PhaseReader.CALL, one, one, 1, file);
     }
 
     /** "nothing between them is one empty argument, or none if the macro has no parameters". */

@@ -21,24 +21,24 @@ public final class OutcomeTest {
             Check.due("nodes", reader.nodes(), 1);
         }
         reader.translate(0);
-        String before = whole(reader);
+        String before = Check.outcome(reader);
         Check.due("outcome", before, "0 int x = 1 ; / 2 2 2 2 2 / 1 1 / 0:-1[1:0[3:0 4:1[18:3]]]");
         for (int file : NO_FILES) {
             Check.due("translate(" + file + ")", reader.translate(file), -1);
-            Check.due("outcome after translate(" + file + ")", whole(reader), before);
+            Check.due("outcome after translate(" + file + ")", Check.outcome(reader), before);
         }
     }
 
     private static void latestTranslation() {
         Reader reader = Check.with("#define a 1\nint x=a;", "int y;", "(");
         Check.due("file 0", reader.translate(0), 0);
-        String first = whole(reader);
+        String first = Check.outcome(reader);
         reader.choose(0);
         reader.clear();
         reader.write('$');
-        Check.due("after the file was changed", whole(reader), first);
+        Check.due("after the file was changed", Check.outcome(reader), first);
         Check.due("file 1", reader.translate(1), 0);
-        Check.due("outcome of file 1", whole(reader), "0 int y ; / 1001 1001 1001 / 0 0 / 0:-1[1:0[3:0 4:1]]");
+        Check.due("outcome of file 1", Check.outcome(reader), "0 int y ; / 1001 1001 1001 / 0 0 / 0:-1[1:0[3:0 4:1]]");
         Check.due("file 2", reader.translate(2), PhaseReader.SYNTAX);
         Check.due("verdict of file 2", reader.verdict(), PhaseReader.SYNTAX);
         Check.due("tokens of file 2", Check.words(reader), "(");
@@ -47,12 +47,12 @@ public final class OutcomeTest {
         Check.put(reader, 0, "#define a 1\nint x=a;");
         Check.due("verdict before it is translated", reader.verdict(), PhaseReader.CHARACTER);
         Check.due("file 0 again", reader.translate(0), 0);
-        Check.due("outcome of file 0 again", whole(reader), first);
+        Check.due("outcome of file 0 again", Check.outcome(reader), first);
         for (int turn = 0; turn < 20; turn++) {
             reader.translate(turn % 3);
         }
         reader.translate(0);
-        Check.due("outcome after many", whole(reader), first);
+        Check.due("outcome after many", Check.outcome(reader), first);
     }
 
     private static void faultsLeaveNoTokens() {
@@ -167,10 +167,5 @@ public final class OutcomeTest {
         Check.verdict(PhaseReader.NUMBER, "1x");
         Check.verdict(PhaseReader.SYNTAX, "x");
         Check.verdict(0, "");
-    }
-
-    private static String whole(Reader reader) {
-        return reader.verdict() + " " + Check.words(reader) + " / " + Check.places(reader) + " / "
-            + reader.replaced() + " " + reader.macros() + " / " + Check.tree(reader);
     }
 }

@@ -326,14 +326,21 @@ public final class ParsingEdgesTest {
     /** The fullest list, of 100 tokens, in every shape that a node can take many times. */
     private static void largestTrees() {
         Check.counts(0, 100, 0, 0, "int " + "*".repeat(97) + "x;");
-        for (String file : new String[] {"int " + "*".repeat(97) + "x;", "int x=" + "-".repeat(95) + "1;", "int x"
-            + ",x".repeat(48) + ";",
-            "int x=1" + "+1".repeat(47) + ";", "int x=a" + "=1".repeat(47) + ";", "int x=a" + "()".repeat(47) + ";",
-                "int x" + "()".repeat(48) + ";",
-            "int x=a(1" + ",1".repeat(46) + ");", "int f(){" + ";".repeat(94) + "}", "int f(){" + "{}".repeat(47) + "}",
-                "int x=a" + "[1]".repeat(31) + ";", "int x" + "[1]".repeat(32) + ";", "int x=(int" + "*".repeat(91)
-                + ")1;", "int x=" + "*&-".repeat(31)
-                + "1;"}) {
+        for (String file : new String[] {
+            "int " + "*".repeat(97) + "x;",
+            "int x" + ",x".repeat(48) + ";",
+            "int x" + "()".repeat(48) + ";",
+            "int x" + "[1]".repeat(32) + ";",
+            "int x=" + "-".repeat(95) + "1;",
+            "int x=" + "*&-".repeat(31) + "1;",
+            "int x=1" + "+1".repeat(47) + ";",
+            "int x=a" + "=1".repeat(47) + ";",
+            "int x=a" + "()".repeat(47) + ";",
+            "int x=a" + "[1]".repeat(31) + ";",
+            "int x=a(1" + ",1".repeat(46) + ");",
+            "int x=(int" + "*".repeat(91) + ")1;",
+            "int f(){" + ";".repeat(94) + "}",
+            "int f(){" + "{}".repeat(47) + "}"}) {
             Reader reader = Check.translated(file);
             Check.due("tokens of " + file, reader.tokens() > 95, true);
             Check.due("outcome of " + file, Check.outcome(reader), new Model(file, "", "").outcome(0));

@@ -279,10 +279,8 @@ public final class ReadingEdgesTest {
     /** "for a comment without an end: COMMENT". */
     private static void commentsWithoutEnd() {
         for (String file : new String[] {"/*", "/*/", "/**", "/* *", "/* * /", "a/*", "/**//*", "/*\n", "/*//\n",
-            "/\\\n*", "/*\n*\n/", "#ifdef A\n/*\n#endif", "#define a /*", "/*" + "*".repeat(FULL - 2),
-            " ".repeat(FULL - 2)
-                + "/*",
-            "/*" + " ".repeat(FULL - 3) + "*", "/*??/\n*\\", "//\n/*"}) {
+            "/\\\n*", "/*\n*\n/", "#ifdef A\n/*\n#endif", "#define a /*", "/*??/\n*\\", "//\n/*",
+            "/*" + "*".repeat(FULL - 2), " ".repeat(FULL - 2) + "/*", "/*" + " ".repeat(FULL - 3) + "*"}) {
             Check.verdict(PhaseReader.COMMENT, file);
         }
         Check.verdict(0, "/*" + "*".repeat(FULL - 3) + "/");
